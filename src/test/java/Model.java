@@ -55,6 +55,7 @@ final class Model {
     private final long[][] trays = new long[4][];
     private final int[] sorts = new int[4];
     private final Map<Integer, Integer> truth = new TreeMap<>();
+    private Days trueDays;
     private final List<Integer> ways = new ArrayList<>();
     private final List<int[]> steps = new ArrayList<>();
     private final List<Integer> strata = new ArrayList<>();
@@ -177,7 +178,10 @@ final class Model {
     }
 
     private Days trueDays() {
-        return new Days(truth);
+        if (trueDays == null) {
+            trueDays = new Days(truth);
+        }
+        return trueDays;
     }
 
     private static void needCount(int count) {
@@ -196,6 +200,7 @@ final class Model {
         return callTruth(() -> {
             needDay(day);
             refuseUnless(kind >= -1 && kind <= 1, 5);
+            trueDays = null;
             if (kind == 0) {
                 truth.remove(day);
             } else {

@@ -7,7 +7,7 @@ import java.util.Random;
 
 /** All promises at random: the class and the model answer the same calls, and each answer and STATUS must be alike. */
 public final class ModelTest {
-    private static final int RUNS = 250;
+    private static final int RUNS = 200;
     private static final int CALLS = 400;
 
     private final Random random;
@@ -15,6 +15,9 @@ public final class ModelTest {
     private final Model model = new Model();
     private final List<String> told = new ArrayList<>();
     private int failed;
+    private int focus;
+    private int noticeCount;
+    private int stampCount;
 
     private ModelTest(long seed) {
         random = new Random(seed);
@@ -67,11 +70,10 @@ public final class ModelTest {
     }
 
     private void run(long seed) throws ReflectiveOperationException {
-        int sort = random.nextInt(4);
-        for (int i = 0; i < 2 + random.nextInt(5) && sort < 3; i++) {
-            both("clock", random.nextInt(4));
-            both("server", random.nextInt(16));
-            both("leap", near(), random.nextInt(3) - 1);
+        focus = random.nextInt(4);
+        stampCount = 86_400 * (focus + 1) - 1 - random.nextInt(4);
+        if (chance(85)) {
+            begin();
         }
         for (int i = 0; i < CALLS && failed == 0; i++) {
             one();
@@ -79,6 +81,20 @@ public final class ModelTest {
         if (failed > 0) {
             System.out.println("seed " + seed + ":\n  " + String.join("\n  ", told));
             System.exit(1);
+        }
+    }
+
+    /** Some CLOCKS that are told of one DAY, rightly or not, so that much hangs on it. */
+    private void begin() throws ReflectiveOperationException {
+        both("leap", focus, chance(70) ? 1 : -1);
+        both("server", random.nextInt(16));
+        both("server", random.nextInt(16));
+        int clocks = 2 + random.nextInt(6);
+        for (int i = 0; i < clocks; i++) {
+            both("clock", random.nextInt(4));
+            if (chance(60)) {
+                both("notice", random.nextInt(2), i, focus, chance(80) ? 1 : -1, 0);
+            }
         }
     }
 
@@ -95,26 +111,29 @@ public final class ModelTest {
     }
 
     private int near() {
-        return chance(95) ? random.nextInt(7) : pick(0, 364, 365, 366, 9_998, 9_999, 10_000, -1);
+        if (chance(50)) {
+            return focus;
+        }
+        return chance(90) ? random.nextInt(7) : pick(0, 364, 365, 366, 9_998, 9_999, 10_000, -1);
     }
 
     private int count() {
         if (chance(4)) {
             return pick(-1, 0, 900_000_000, 900_000_001, 899_990_000, 899_990_001, random.nextInt(900_000_000));
         }
-        int edge = 86_400 * (chance(95) ? random.nextInt(9) : random.nextInt(10_000));
-        return Math.max(0, edge + (chance(70) ? random.nextInt(9) - 4 : random.nextInt(86_400)));
+        int day = chance(60) ? focus + 1 : chance(95) ? random.nextInt(9) : random.nextInt(10_000);
+        return Math.max(0, 86_400 * day + (chance(70) ? random.nextInt(13) - 6 : random.nextInt(86_400)));
     }
 
-    private int lateCount = 0;
+    /** NOTICES and STAMPS come at COUNTS that rise; now and then one does not. */
+    private int noticeCount() {
+        noticeCount += chance(90) ? random.nextInt(4) : random.nextInt(43_200);
+        return chance(97) ? noticeCount : pick(-1, 0, noticeCount - 1, noticeCount - 50_000);
+    }
 
-    /** COUNTS that mostly rise, as NOTICES and STAMPS must. */
-    private int risingCount() {
-        if (chance(10)) {
-            return count();
-        }
-        lateCount += chance(60) ? random.nextInt(4) : random.nextInt(9_000);
-        return lateCount;
+    private int stampCount() {
+        stampCount += chance(95) ? random.nextInt(3) : random.nextInt(86_400);
+        return chance(97) ? stampCount : pick(-1, 0, stampCount - 1, stampCount - 5);
     }
 
     private int clockNumber() {
@@ -160,15 +179,17 @@ public final class ModelTest {
                 worst();
                 break;
             case 11:
-            case 12:
                 rules();
+                break;
+            case 12:
+                both("told", random.nextInt(8), odd(random.nextInt(4)));
                 break;
             case 13:
             case 14:
             case 15:
             case 16:
                 both("notice", odd(random.nextInt(3)), clockNumber(), odd(near()), odd(chance(70) ? 1 : -1),
-                    risingCount());
+                    noticeCount());
                 break;
             case 17:
             case 18:
@@ -178,7 +199,7 @@ public final class ModelTest {
                 break;
             case 19:
             case 20:
-                both("stamp", clockNumber(), risingCount());
+                both("stamp", clockNumber(), stampCount());
                 break;
             case 21:
                 both("wrong");
@@ -228,9 +249,10 @@ public final class ModelTest {
     private void rules() throws ReflectiveOperationException {
         StringBuilder text = new StringBuilder();
         List<String> names = new ArrayList<>();
-        int defs = chance(8) ? 11 : random.nextInt(4);
+        int defs = chance(8) ? 11 : 1 + random.nextInt(3);
         for (int i = 0; i < defs; i++) {
-            String name = chance(40) ? "believe" : chance(90) ? "d" + (char) ('a' + i) : word(names);
+            boolean isBelieve = i == defs - 1 ? chance(90) : chance(20);
+            String name = isBelieve ? "believe" : chance(95) ? "d" + (char) ('a' + i) : word(names);
             text.append(name).append(blank()).append(':').append(whole(names, defs > 5 ? 9 : 1)).append(";").append(blank());
             names.add(name);
         }
@@ -247,7 +269,7 @@ public final class ModelTest {
 
     private String spoil(String text) {
         String made = text.length() > 500 ? text.substring(0, 500) : text;
-        if (chance(60) || made.isEmpty()) {
+        if (chance(75) || made.isEmpty()) {
             return made;
         }
         int at = random.nextInt(made.length());
@@ -315,14 +337,14 @@ public final class ModelTest {
 
     private String lines(int agains) {
         StringBuilder lines = new StringBuilder();
-        int many = chance(3) ? 42 : random.nextInt(5);
+        int many = chance(3) ? 42 : 1 + random.nextInt(5);
         for (int i = 0; i < many; i++) {
             int kind = random.nextInt(5);
             if (kind == 0) {
-                lines.append("wait ").append(chance(90) ? 1 + random.nextInt(9) : pick(0, 1000, 2500, 3600, 3601)).append(";");
+                lines.append("wait ").append(chance(92) ? 1 + random.nextInt(5) : pick(0, 1000, 2500, 3600, 3601)).append(";");
             } else if (kind == 1) {
-                lines.append("until ").append(chance(50) ? 23 : random.nextInt(25)).append(":").append(chance(50) ? 59
-                    : random.nextInt(61)).append(":").append(chance(50) ? 59 : random.nextInt(61)).append(";");
+                lines.append(chance(60) ? "until 23:59:" : "until " + random.nextInt(24) + ":0:")
+                    .append(chance(97) ? 59 - random.nextInt(3) : 60).append(";");
             } else if (kind == 2) {
                 lines.append("stamp;");
             } else if (kind == 3) {
