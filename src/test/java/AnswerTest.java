@@ -168,6 +168,11 @@ public final class AnswerTest {
         Check.refused(x, "a SECOND below 0", x.find(1, 0, 2), 5);
         x.write(1, 1, 86_401);
         Check.refused(x, "SECOND 86401", x.find(1, 0, 2), 5);
+        x.write(1, 0, 86_401);
+        Check.refused(x, "the first SECOND can't be", x.find(1, 0, 1), 5);
+        x.write(1, 0, 86_400_001);
+        Check.refused(x, "the first shown can't be", x.find(0, 1, 1), 5);
+        x.write(1, 0, 0);
         Check.refused(x, "ask(), still none", x.ask(), 8);
         Check.due(x, "the first alone", x.find(1, 0, 1), 31, 0);
         x.write(1, 1, (1L << 32) + 5);
