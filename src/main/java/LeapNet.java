@@ -1389,7 +1389,6 @@ public final class LeapNet {
         /** Five numbers at most lie on the pile for each level of depth. */
         private static final int PILE_ROOM = 64;
 
-        private static final int FAULT_CANNOT_STAND = 2;
         private static final int FAULT_TOO_MANY = 3;
         private static final int FAULT_NAME_AGAIN = 4;
         private static final int FAULT_TOO_DEEP = 5;
@@ -1451,7 +1450,7 @@ public final class LeapNet {
 
         private void readDef() {
             if (!isName()) {
-                reader.refuse(FAULT_CANNOT_STAND);
+                reader.refuse(Reader.FAULT_CANNOT_STAND);
             } else if (defs >= MOST_DEFS) {
                 reader.refuse(FAULT_TOO_MANY);
             } else if (placeOfName() != NONE) {
@@ -1496,7 +1495,7 @@ public final class LeapNet {
         private void readPart(int depth, boolean mayBeIf) {
             boolean isIf = mayBeIf && reader.isWord(WORD_IF);
             if (depth > DEEPEST) {
-                reader.refuse(isIf || canBeginSum() ? FAULT_TOO_DEEP : FAULT_CANNOT_STAND);
+                reader.refuse(isIf || canBeginSum() ? FAULT_TOO_DEEP : Reader.FAULT_CANNOT_STAND);
             } else if (isIf) {
                 reader.advance();
                 readTest(depth);
@@ -1534,7 +1533,7 @@ public final class LeapNet {
             readSum(depth);
             int operation = comparesHere();
             if (operation == NONE) {
-                reader.refuse(FAULT_CANNOT_STAND);
+                reader.refuse(Reader.FAULT_CANNOT_STAND);
             } else {
                 reader.advance();
                 readSum(depth);
@@ -1595,7 +1594,7 @@ public final class LeapNet {
             } else if (reader.isAnyWord()) {
                 readWordAtom();
             } else {
-                reader.refuse(FAULT_CANNOT_STAND);
+                reader.refuse(Reader.FAULT_CANNOT_STAND);
             }
         }
 
@@ -1623,7 +1622,7 @@ public final class LeapNet {
                 emit(OP_NAMED, named);
                 reader.advance();
             } else {
-                reader.refuse(isKeyWord() ? FAULT_CANNOT_STAND : FAULT_UNKNOWN);
+                reader.refuse(isKeyWord() ? Reader.FAULT_CANNOT_STAND : FAULT_UNKNOWN);
             }
         }
 
@@ -1755,7 +1754,6 @@ public final class LeapNet {
         private static final int HOW_TAKE = 7;
         private static final int BACK = 8;
 
-        private static final int FAULT_CANNOT_STAND = 2;
         private static final int FAULT_TOO_MANY = 3;
         private static final int FAULT_BAD_NUMBER = 4;
         private static final int FAULT_TOO_DEEP = 5;
@@ -1783,7 +1781,7 @@ public final class LeapNet {
         void readLines() {
             readLinesWithin(0);
             if (!reader.isEnd()) {
-                reader.refuse(FAULT_CANNOT_STAND);
+                reader.refuse(Reader.FAULT_CANNOT_STAND);
             }
         }
 
@@ -1800,7 +1798,7 @@ public final class LeapNet {
         private void readLine(int agains) {
             int sort = reader.code();
             if (!reader.isAnyWord() || !isWithin(sort, WAIT, AGAIN)) {
-                reader.refuse(FAULT_CANNOT_STAND);
+                reader.refuse(Reader.FAULT_CANNOT_STAND);
             } else if (lines >= MOST_LINES) {
                 reader.refuse(FAULT_TOO_MANY);
             } else if (sort == AGAIN && agains >= DEEPEST) {
@@ -1841,7 +1839,7 @@ public final class LeapNet {
             if (reader.isAnyWord() && isWithin(how, HOW_REFUSE, HOW_TAKE)) {
                 reader.advance();
             } else {
-                reader.refuse(FAULT_CANNOT_STAND);
+                reader.refuse(Reader.FAULT_CANNOT_STAND);
             }
             return how;
         }
@@ -1859,7 +1857,7 @@ public final class LeapNet {
         private int takeNumber(int least, int greatest) {
             int number = reader.code();
             if (!reader.isNumber()) {
-                reader.refuse(FAULT_CANNOT_STAND);
+                reader.refuse(Reader.FAULT_CANNOT_STAND);
             } else if (!isWithin(number, least, greatest)) {
                 reader.refuse(FAULT_BAD_NUMBER);
             } else {
