@@ -253,7 +253,8 @@ public final class ModelTest {
         for (int i = 0; i < defs; i++) {
             boolean isBelieve = i == defs - 1 ? chance(90) : chance(20);
             String name = isBelieve ? "believe" : chance(95) ? "d" + (char) ('a' + i) : word(names);
-            text.append(name).append(blank()).append(':').append(whole(names, defs > 5 ? 9 : 1)).append(";").append(blank());
+            text.append(name).append(blank()).append(':').append(whole(names, defs > 5 ? 9 : 1));
+            text.append(";").append(blank());
             names.add(name);
         }
         String made = spoil(text.toString());
@@ -273,15 +274,16 @@ public final class ModelTest {
             return made;
         }
         int at = random.nextInt(made.length());
-        String[] bits = {"", "#", "(", ")", " ", "7", "if", " then ", " else ", " not ", " and ", ":", ";", "=", "zz", "1234567",
-            "((((((((", ",", "{", "}", ".", "least(", " most", "a", "\u00e9"};
+        String[] bits = {"", "#", "(", ")", " ", "7", "if", " then ", " else ", " not ", " and ", ":", ";", "=", "zz",
+            "1234567", "((((((((", ",", "{", "}", ".", "least(", " most", "a", "\u00e9"};
         String bit = bits[random.nextInt(bits.length)];
         String spoilt = made.substring(0, at) + bit + made.substring(chance(50) ? at : at + 1);
         return spoilt.length() > 500 ? spoilt.substring(0, 500) : spoilt;
     }
 
     private String word(List<String> names) {
-        String[] words = {"server", "stratum", "ahead", "kind", "alike", "against", "way", "clock", "day", "month", "year"};
+        String[] words = {"server", "stratum", "ahead", "kind", "alike", "against", "way", "clock", "day", "month",
+            "year"};
         if (!names.isEmpty() && chance(40)) {
             return names.get(random.nextInt(names.size()));
         }
@@ -341,7 +343,8 @@ public final class ModelTest {
         for (int i = 0; i < many; i++) {
             int kind = random.nextInt(5);
             if (kind == 0) {
-                lines.append("wait ").append(chance(92) ? 1 + random.nextInt(5) : pick(0, 1000, 2500, 3600, 3601)).append(";");
+                int seconds = chance(92) ? 1 + random.nextInt(5) : pick(0, 1000, 2500, 3600, 3601);
+                lines.append("wait ").append(seconds).append(";");
             } else if (kind == 1) {
                 lines.append(chance(60) ? "until 23:59:" : "until " + random.nextInt(24) + ":0:")
                     .append(chance(97) ? 59 - random.nextInt(3) : 60).append(";");
@@ -355,13 +358,6 @@ public final class ModelTest {
             }
         }
         return lines.toString();
-    }
-
-    private void fill(int tray, int many, long spread, long least) throws ReflectiveOperationException {
-        both("tray", tray, pick(2, 3), many);
-        for (int i = 0; i < many; i++) {
-            both("write", tray, i, least + (long) (random.nextDouble() * spread));
-        }
     }
 
     private void answers() throws ReflectiveOperationException {
@@ -389,8 +385,8 @@ public final class ModelTest {
         both("tray", 3, 2, many);
         for (int i = 0; i < many; i++) {
             long second = pick(0, 1, 2, 43_200, 86_399, 86_400, 86_400, 86_401);
-            long shown = second == 86_400 ? pick(0, 86_400_000, 86_399_000, 86_399_999) : 1000 * second - random.nextInt(2)
-                - (chance(20) ? 1000 : 0);
+            long shown = second == 86_400 ? pick(0, 86_400_000, 86_399_000, 86_399_999)
+                : 1000 * second - random.nextInt(2) - (chance(20) ? 1000 : 0);
             both("write", 2, i, second);
             both("write", 3, i, shown);
         }
@@ -404,6 +400,7 @@ public final class ModelTest {
             odd(chance(80) ? from + random.nextInt(4) : pick(364, 365)));
         both("local", odd(random.nextInt(4)), count());
         int day = pick(near(), 365 + near());
-        both("oft", odd(random.nextInt(4)), odd(day), odd(pick(0, 59, 60, 119, 120, 179, 180, 1_439, random.nextInt(1_440))));
+        int minute = pick(0, 59, 60, 119, 120, 179, 180, 1_439, random.nextInt(1_440));
+        both("oft", odd(random.nextInt(4)), odd(day), odd(minute));
     }
 }
