@@ -1958,7 +1958,7 @@ public final class LeapNet {
         private void waitFor(int seconds) {
             int began = at;
             long goal = thousandthsInAll(shown) + 1000L * seconds;
-            for (int i = 0; i < LONGEST && outcome == DONE && thousandthsInAll(shown) < goal; i++) {
+            for (int i = 0; i <= LONGEST && outcome == DONE && thousandthsInAll(shown) < goal; i++) {
                 goOn();
             }
             if (outcome == DONE) {
@@ -1967,16 +1967,21 @@ public final class LeapNet {
         }
 
         private void goOnUntil(long thousandths) {
-            for (int i = 0; i < LONGEST && outcome == DONE && shown % SHOWN_DAY < thousandths; i++) {
+            for (int i = 0; i <= LONGEST && outcome == DONE && shown % SHOWN_DAY < thousandths; i++) {
                 goOn();
             }
         }
 
+        /**
+         * At the last COUNT it is only for EVER if it would have to go on: a LINE that is over there is done. So those
+         * who call this have one turn more than there are COUNTS.
+         */
         private void goOn() {
-            at++;
-            shown = clock.shownAt(at);
             if (at - first >= LONGEST) {
                 outcome = EVER;
+            } else {
+                at++;
+                shown = clock.shownAt(at);
             }
         }
 

@@ -955,10 +955,10 @@ final class Model {
         }
 
         private void tick() {
-            at++;
             if (at == first + 5_000) {
                 throw new RunEnd(2);
             }
+            at++;
         }
 
         private void parse(String how, long shown) {

@@ -330,11 +330,17 @@ public final class ModelTest {
     }
 
     private void program() throws ReflectiveOperationException {
-        String made = spoil(lines(0));
+        String made = chance(10) ? linesTillEver() : spoil(lines(0));
         feed(made);
         both("program", chance(96) ? made.length() : pick(-1, 0, 3, made.length() + 1));
         both("fault", 0);
         both("fault", 1);
+    }
+
+    /** LINES that are over at about the 5,000th COUNT, and some behind them. */
+    private String linesTillEver() {
+        StringBuilder lines = new StringBuilder(lines(2)).append("wait 3600;");
+        return lines.append("wait ").append(1_380 + random.nextInt(24)).append(";").append(lines(2)).toString();
     }
 
     private String lines(int agains) {

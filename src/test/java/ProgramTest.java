@@ -15,6 +15,8 @@ public final class ProgramTest {
         parses();
         agains();
         ever();
+        overAtTheLastCount();
+        behindTheLastCount();
         mostKept();
         keptOfLatest();
         manyRows();
@@ -271,18 +273,66 @@ public final class ProgramTest {
     private static void ever() {
         LeapNet x = net(1, "again 20 { wait 1000; stamp; }");
         Check.due(x, "run", x.run(0, 500), 2, 0);
-        dueRan(x, 5_500, 0, 1_500_000, 2_500_000, 3_500_000, 4_500_000);
-        LeapNet y = net(1, "wait 3600; wait 1399; stamp;");
-        Check.due(y, "ahead of the 5,000th", y.run(0, 7), 0, 0);
-        dueRan(y, 5_006, 0, 5_006_000);
+        dueRan(x, 5_500, 0, 1_500_000, 2_500_000, 3_500_000, 4_500_000, 5_500_000);
+        LeapNet y = net(1, "wait 3600; wait 1401; stamp;");
+        Check.due(y, "one behind the 5,000th", y.run(0, 7), 2, 0);
+        dueRan(y, 5_007, 0);
         LeapNet z = net(1, "wait 3600; wait 1400; stamp;");
-        Check.due(z, "at the 5,000th", z.run(0, 7), 2, 0);
-        dueRan(z, 5_007, 0);
         Check.due(z, "late waits", z.run(1, 2 * DAY - 100), 2, 0);
         dueRan(z, 2 * DAY + 4_900, 1);
         LeapNet w = net(1, "until 23:0:0; stamp;");
         Check.due(w, "until for ever", w.run(0, 0), 2, 0);
         dueRan(w, 5_000, 0);
+        LeapNet v = net(1, "until 1:23:21; stamp;");
+        Check.due(v, "until one behind the 5,000th", v.run(0, 0), 2, 0);
+        dueRan(v, 5_000, 0);
+        Check.due(v, "until the 5,000th", v.run(0, 1), 0, 0);
+        dueRan(v, 5_001, 0, 5_001_000);
+    }
+
+    /** A LINE that is over at just the 5,000th COUNT is done, and the RUN with it if it is the last. */
+    private static void overAtTheLastCount() {
+        LeapNet x = net(1, "wait 3600; wait 1399; stamp;");
+        Check.due(x, "ahead of the 5,000th", x.run(0, 7), 0, 0);
+        dueRan(x, 5_006, 0, 5_006_000);
+        Check.due(x, "late, at the 5,000th", x.run(1, 2 * DAY - 100), 0, 0);
+        dueRan(x, 2 * DAY + 4_900, 1, 2 * SHOWN + 4_899_000);
+        LeapNet y = net(1, "wait 3600; wait 1400;");
+        Check.due(y, "a wait, the last LINE", y.run(0, 0), 0, 0);
+        dueRan(y, 5_000, 0);
+        Check.due(y, "from the last COUNT on", y.run(0, 899_990_000), 0, 0);
+        dueRan(y, 899_995_000, 0);
+        LeapNet z = net(-1, "wait 3600; wait 1401;");
+        Check.due(z, "a wait that is shorter", z.run(0, 2 * DAY - 100), 0, 0);
+        dueRan(z, 2 * DAY + 4_900, -1);
+        LeapNet w = net(1, "until 1:23:20;");
+        Check.due(w, "an until, the last LINE", w.run(0, 0), 0, 0);
+        dueRan(w, 5_000, 0);
+        LeapNet v = net(1, "again 5 { wait 1000; }");
+        Check.due(v, "the last time of an again", v.run(4, 20), 0, 0);
+        dueRan(v, 5_020, 0);
+        LeapNet u = net(-1, "wait 3600; wait 1401; stamp;");
+        u.step(4, 2 * DAY + 4_900);
+        Check.due(u, "a STEP at the 5,000th ends it", u.run(4, 2 * DAY - 100), 0, 0);
+        dueRan(u, 2 * DAY + 4_900, -1, 2 * SHOWN + 4_901_000);
+    }
+
+    /** At the 5,000th COUNT what takes no time is done; what would have to go on is for EVER. */
+    private static void behindTheLastCount() {
+        LeapNet x = net(1, "wait 3600; wait 1400; stamp; until 1:23:20; until 0:0:0; again 2 { parse refuse; }");
+        Check.due(x, "all that takes no time", x.run(0, 0), 0, 0);
+        dueRan(x, 5_000, 0, 5_000_000, 5_000_000, 5_000_000);
+        Check.due(x, "an until that goes on", x.run(0, 3 * DAY + 1 - 5_000), 2, 0);
+        dueRan(x, 3 * DAY + 1, 0, 3 * SHOWN);
+        LeapNet y = net(1, "until 1:23:20; stamp; wait 1; stamp;");
+        Check.due(y, "a wait that begins there", y.run(0, 0), 2, 0);
+        dueRan(y, 5_000, 0, 5_000_000);
+        LeapNet z = net(1, "wait 3600; wait 1400; stamp; until 1:23:21; stamp;");
+        Check.due(z, "an until that begins there", z.run(0, 0), 2, 0);
+        dueRan(z, 5_000, 0, 5_000_000);
+        LeapNet w = net(1, "wait 3600; wait 1400; parse take; parse refuse; stamp;");
+        Check.due(w, "refused there", w.run(0, 2 * DAY - 5_000), 1, 0);
+        dueRan(w, 2 * DAY, 0, SHOWN + 86_400_000);
     }
 
     private static void mostKept() {
