@@ -1,18 +1,26 @@
 import java.nio.charset.StandardCharsets;
+import java.util.function.IntPredicate;
+import java.util.function.IntToLongFunction;
 
 /** What the tests have in common: it counts what was asked, and prints what was not as due. */
 final class Check {
     private static int asked;
     private static int failed;
+    private static String about = "";
 
     private Check() {
+    }
+
+    /** What is told ahead of each answer that is not as due. */
+    static void about(String what) {
+        about = what;
     }
 
     static void due(String call, long got, long want) {
         asked++;
         if (got != want) {
             failed++;
-            System.out.println(call + " answered " + got + ", due is " + want);
+            System.out.println(about + call + " answered " + got + ", due is " + want);
         }
     }
 
@@ -38,6 +46,27 @@ final class Check {
     static void taken(LeapNet x, String call, boolean got) {
         due(call, got, true);
         due(call + ", status()", x.status(), 0);
+    }
+
+    /** A number that a call takes from the least to the greatest, and refuses one below, one above, and far off. */
+    static void range(LeapNet x, String call, IntToLongFunction calling, int least, int greatest, int status) {
+        for (int number : new int[] {least, greatest}) {
+            calling.applyAsLong(number);
+            due(call + " of " + number + ", status()", x.status(), 0);
+        }
+        for (int number : new int[] {least - 1, greatest + 1, Integer.MIN_VALUE, Integer.MAX_VALUE}) {
+            refused(x, call + " of " + number, calling.applyAsLong(number), status);
+        }
+    }
+
+    /** Likewise of a call that tells by a boolean whether it was taken. */
+    static void rangeTaken(LeapNet x, String call, IntPredicate calling, int least, int greatest, int status) {
+        for (int number : new int[] {least, greatest}) {
+            taken(x, call + " of " + number, calling.test(number));
+        }
+        for (int number : new int[] {least - 1, greatest + 1, Integer.MIN_VALUE, Integer.MAX_VALUE}) {
+            refused(x, call + " of " + number, calling.test(number), status);
+        }
     }
 
     /** Lays a text on the tape, with blanks behind it up to the next 20 bytes. */

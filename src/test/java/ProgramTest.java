@@ -42,90 +42,73 @@ public final class ProgramTest {
         Check.due(x, "it stamps nothing", x.ran(2), 0, 0);
     }
 
-    private static void good(String text, int lines) {
-        LeapNet x = new LeapNet();
-        Check.due(x, text, Check.program(x, text), lines, 0);
-        Check.due(text + ", fault(0)", x.fault(0), 0);
-        Check.due(text + ", fault(1)", x.fault(1), LeapNet.NONE);
-    }
-
-    /** The sign ^ is not of the text: it stands ahead of the place of the FAULT. */
-    private static void faulty(String marked, int kind) {
-        int place = marked.indexOf('^');
-        String text = marked.substring(0, place) + marked.substring(place + 1);
-        LeapNet x = new LeapNet();
-        Check.refused(x, marked, Check.program(x, text), 10);
-        Check.due(marked + ", fault(0)", x.fault(0), kind);
-        Check.due(marked + ", fault(1)", x.fault(1), place);
-    }
-
     private static void goodTexts() {
-        good("", 0);
-        good("\n \n", 0);
-        good("wait 1;wait 3600;wait 001;", 3);
-        good("until 0:0:0;until 23:59:59;until 00 : 00 : 00 ;", 3);
-        good("stamp;parse refuse;parse fold;parse take;", 4);
-        good("again 2{}", 1);
-        good("again 20 { stamp; again 2 { again 2 { wait 5 ; } } } stamp;", 6);
-        good("stamp;".repeat(40), 40);
-        good("again 2 {" + "stamp;".repeat(39) + "}", 40);
-        good("again 2 {}".repeat(40), 40);
+        Texts.goodProgram("", 0);
+        Texts.goodProgram("\n \n", 0);
+        Texts.goodProgram("wait 1;wait 3600;wait 001;", 3);
+        Texts.goodProgram("until 0:0:0;until 23:59:59;until 00 : 00 : 00 ;", 3);
+        Texts.goodProgram("stamp;parse refuse;parse fold;parse take;", 4);
+        Texts.goodProgram("again 2{}", 1);
+        Texts.goodProgram("again 20 { stamp; again 2 { again 2 { wait 5 ; } } } stamp;", 6);
+        Texts.goodProgram("stamp;".repeat(40), 40);
+        Texts.goodProgram("again 2 {" + "stamp;".repeat(39) + "}", 40);
+        Texts.goodProgram("again 2 {}".repeat(40), 40);
     }
 
     private static void faults() {
-        faulty("^x;", 2);
-        faulty("^waits 1;", 2);
-        faulty("^refuse;", 2);
-        faulty("^;", 2);
-        faulty("^1;", 2);
-        faulty("^}", 2);
-        faulty("stamp;^}", 2);
-        faulty("stamp ^stamp;", 2);
-        faulty("stamp^", 2);
-        faulty("stamp  ^", 2);
-        faulty("wait^;", 2);
-        faulty("wait ^x;", 2);
-        faulty("wait 5 ^5;", 2);
-        faulty("wait ^0;", 4);
-        faulty("wait ^3601;", 4);
-        faulty("wait ^999999;", 4);
-        faulty("wait ^1234567;", 1);
-        faulty("wait ^-1;", 2);
-        faulty("until ^24:0:0;", 4);
-        faulty("until 0:^60:0;", 4);
-        faulty("until 0:0:^60;", 4);
-        faulty("until 0^;", 2);
-        faulty("until 0:0^;", 2);
-        faulty("until 0:0:^;", 2);
-        faulty("until 0:0:0^:0;", 2);
-        faulty("parse ^;", 2);
-        faulty("parse ^stamp;", 2);
-        faulty("parse ^folds;", 2);
-        faulty("parse ^5;", 2);
-        faulty("parse fold^", 2);
-        faulty("again ^1 {}", 4);
-        faulty("again ^21 {}", 4);
-        faulty("again ^{}", 2);
-        faulty("again 2 ^stamp;", 2);
-        faulty("again 2 { stamp; ^", 2);
-        faulty("again 2 { stamp; }^;", 2);
-        faulty("again 2 { ^x }", 2);
-        faulty("again 2 { } ^}", 2);
-        faulty("stamp;^.", 1);
-        faulty("stamp;^#", 1);
-        faulty("wait ^A;", 1);
-        faulty("stamp;^<", 2);
-        faulty("stamp;^(", 2);
-        faulty("again 2 {again 2 {again 2 {^again 2 {}}}}", 5);
-        faulty("again 2 {again 2 {again 2 {^again", 5);
-        good("again 2 {again 2 {again 2 {}}again 2 {again 2{}}}", 5);
-        faulty("again 2 {again 2 {again 2 {}again 3{stamp;^again 2 {}}}}", 5);
-        faulty("stamp;".repeat(40) + "^stamp;", 3);
-        faulty("stamp;".repeat(40) + "^wait 0;", 3);
-        faulty("stamp;".repeat(40) + "^x;", 2);
-        faulty("stamp;".repeat(40) + "^}", 2);
-        faulty("again 2 {" + "stamp;".repeat(39) + "^stamp;}", 3);
-        faulty("again 2 {again 2 {again 2 {" + "stamp;".repeat(37) + "^again 2 {}}}}", 3);
+        Texts.faultyProgram("^x;", 2);
+        Texts.faultyProgram("^waits 1;", 2);
+        Texts.faultyProgram("^refuse;", 2);
+        Texts.faultyProgram("^;", 2);
+        Texts.faultyProgram("^1;", 2);
+        Texts.faultyProgram("^}", 2);
+        Texts.faultyProgram("stamp;^}", 2);
+        Texts.faultyProgram("stamp ^stamp;", 2);
+        Texts.faultyProgram("stamp^", 2);
+        Texts.faultyProgram("stamp  ^", 2);
+        Texts.faultyProgram("wait^;", 2);
+        Texts.faultyProgram("wait ^x;", 2);
+        Texts.faultyProgram("wait 5 ^5;", 2);
+        Texts.faultyProgram("wait ^0;", 4);
+        Texts.faultyProgram("wait ^3601;", 4);
+        Texts.faultyProgram("wait ^999999;", 4);
+        Texts.faultyProgram("wait ^1234567;", 1);
+        Texts.faultyProgram("wait ^-1;", 2);
+        Texts.faultyProgram("until ^24:0:0;", 4);
+        Texts.faultyProgram("until 0:^60:0;", 4);
+        Texts.faultyProgram("until 0:0:^60;", 4);
+        Texts.faultyProgram("until 0^;", 2);
+        Texts.faultyProgram("until 0:0^;", 2);
+        Texts.faultyProgram("until 0:0:^;", 2);
+        Texts.faultyProgram("until 0:0:0^:0;", 2);
+        Texts.faultyProgram("parse ^;", 2);
+        Texts.faultyProgram("parse ^stamp;", 2);
+        Texts.faultyProgram("parse ^folds;", 2);
+        Texts.faultyProgram("parse ^5;", 2);
+        Texts.faultyProgram("parse fold^", 2);
+        Texts.faultyProgram("again ^1 {}", 4);
+        Texts.faultyProgram("again ^21 {}", 4);
+        Texts.faultyProgram("again ^{}", 2);
+        Texts.faultyProgram("again 2 ^stamp;", 2);
+        Texts.faultyProgram("again 2 { stamp; ^", 2);
+        Texts.faultyProgram("again 2 { stamp; }^;", 2);
+        Texts.faultyProgram("again 2 { ^x }", 2);
+        Texts.faultyProgram("again 2 { } ^}", 2);
+        Texts.faultyProgram("stamp;^.", 1);
+        Texts.faultyProgram("stamp;^#", 1);
+        Texts.faultyProgram("wait ^A;", 1);
+        Texts.faultyProgram("stamp;^<", 2);
+        Texts.faultyProgram("stamp;^(", 2);
+        Texts.faultyProgram("again 2 {again 2 {again 2 {^again 2 {}}}}", 5);
+        Texts.faultyProgram("again 2 {again 2 {again 2 {^again", 5);
+        Texts.goodProgram("again 2 {again 2 {again 2 {}}again 2 {again 2{}}}", 5);
+        Texts.faultyProgram("again 2 {again 2 {again 2 {}again 3{stamp;^again 2 {}}}}", 5);
+        Texts.faultyProgram("stamp;".repeat(40) + "^stamp;", 3);
+        Texts.faultyProgram("stamp;".repeat(40) + "^wait 0;", 3);
+        Texts.faultyProgram("stamp;".repeat(40) + "^x;", 2);
+        Texts.faultyProgram("stamp;".repeat(40) + "^}", 2);
+        Texts.faultyProgram("again 2 {" + "stamp;".repeat(39) + "^stamp;}", 3);
+        Texts.faultyProgram("again 2 {again 2 {again 2 {" + "stamp;".repeat(37) + "^again 2 {}}}}", 3);
     }
 
     private static void statuses() {

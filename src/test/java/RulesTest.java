@@ -90,268 +90,229 @@ public final class RulesTest {
         Check.due("fault(0) of an empty program", x.fault(0), 0);
     }
 
-    private static void good(String text, int defs) {
-        LeapNet x = new LeapNet();
-        Check.due(x, text, Check.rules(x, text, 0), defs, 0);
-        Check.due(text + ", fault(0)", x.fault(0), 0);
-        Check.due(text + ", fault(1)", x.fault(1), LeapNet.NONE);
-    }
-
-    /** The sign ^ is not of the text: it stands ahead of the place of the FAULT. */
-    private static void faulty(String marked, int kind) {
-        int place = marked.indexOf('^');
-        String text = marked.substring(0, place) + marked.substring(place + 1);
-        LeapNet x = new LeapNet();
-        Check.refused(x, marked, Check.rules(x, text, 0), 10);
-        Check.due(marked + ", fault(0)", x.fault(0), kind);
-        Check.due(marked + ", fault(1)", x.fault(1), place);
-    }
-
     private static void goodTexts() {
-        good("", 0);
-        good(" \n ", 0);
-        good("a:1;", 1);
-        good("\na\n:\n1\n;\n", 1);
-        good("a:000001;b:999999;c:a+b*a/b%a-b;", 3);
-        good("a:server+stratum+ahead+kind+alike+against+way+clock+day+month+year;", 1);
-        good("abcdefgh:1;", 1);
-        good("a:if 1<2 then 3 else 4;", 1);
-        good("a:if not 1<2 and not 2=3 and 4>5 then 3 else if 1=1 or 2=2 or not 3=3 then 5 else 6;", 1);
-        good("a:least(1,2)+most(least(1,2),(if 1=1 then 2 else 3));", 1);
-        good("a:if(if 1=1 then 1 else 2)=1 then(3)else(4);", 1);
-        good("a:1;b:1;c:1;d:1;e:1;f:1;g:1;h:1;i:1;j:1;", 10);
+        Texts.goodRules("", 0);
+        Texts.goodRules(" \n ", 0);
+        Texts.goodRules("a:1;", 1);
+        Texts.goodRules("\na\n:\n1\n;\n", 1);
+        Texts.goodRules("a:000001;b:999999;c:a+b*a/b%a-b;", 3);
+        Texts.goodRules("a:server+stratum+ahead+kind+alike+against+way+clock+day+month+year;", 1);
+        Texts.goodRules("abcdefgh:1;", 1);
+        Texts.goodRules("a:if 1<2 then 3 else 4;", 1);
+        Texts.goodRules("a:if not 1<2 and not 2=3 and 4>5 then 3 else if 1=1 or 2=2 or not 3=3 then 5 else 6;", 1);
+        Texts.goodRules("a:least(1,2)+most(least(1,2),(if 1=1 then 2 else 3));", 1);
+        Texts.goodRules("a:if(if 1=1 then 1 else 2)=1 then(3)else(4);", 1);
+        Texts.goodRules("a:1;b:1;c:1;d:1;e:1;f:1;g:1;h:1;i:1;j:1;", 10);
     }
 
     private static void tokenFaults() {
-        faulty("a:^1234567;", 1);
-        faulty("a:^12345678901234567890;", 1);
-        faulty("a:1^A;", 1);
-        faulty("^A:1;", 1);
-        faulty("a:^{1};", 1);
-        faulty("a:1;^.", 1);
-        faulty("a:1^\t;", 1);
-        faulty("a:1^\r;", 1);
-        faulty("a:^\u00e9;", 1);
-        faulty("a:^\u00ff;", 1);
-        faulty("a:^\u0000;", 1);
-        faulty("a:if 1 ^! 2 then 3 else 4;", 1);
-        faulty("a:((((((((^#", 1);
-        faulty("a:1;b:1;c:1;d:1;e:1;f:1;g:1;h:1;i:1;j:1;^_", 1);
+        Texts.faultyRules("a:^1234567;", 1);
+        Texts.faultyRules("a:^12345678901234567890;", 1);
+        Texts.faultyRules("a:1^A;", 1);
+        Texts.faultyRules("^A:1;", 1);
+        Texts.faultyRules("a:^{1};", 1);
+        Texts.faultyRules("a:1;^.", 1);
+        Texts.faultyRules("a:1^\t;", 1);
+        Texts.faultyRules("a:1^\r;", 1);
+        Texts.faultyRules("a:^\u00e9;", 1);
+        Texts.faultyRules("a:^\u00ff;", 1);
+        Texts.faultyRules("a:^\u0000;", 1);
+        Texts.faultyRules("a:if 1 ^! 2 then 3 else 4;", 1);
+        Texts.faultyRules("a:((((((((^#", 1);
+        Texts.faultyRules("a:1;b:1;c:1;d:1;e:1;f:1;g:1;h:1;i:1;j:1;^_", 1);
     }
 
     private static void grammarFaults() {
-        faulty("a^", 2);
-        faulty("a   ^", 2);
-        faulty("a:^", 2);
-        faulty("a:1^", 2);
-        faulty("a:1 \n ^", 2);
-        faulty("^1:1;", 2);
-        faulty("^:1;", 2);
-        faulty("a ^1;", 2);
-        faulty("a:^;", 2);
-        faulty("a:1;^;", 2);
-        faulty("a:1 ^1;", 2);
-        faulty("a:1^b:2;", 2);
-        faulty("a:1+^;", 2);
-        faulty("a:^+1;", 2);
-        faulty("a:^-1;", 2);
-        faulty("a:1*^*1;", 2);
-        faulty("a:1^<2;", 2);
-        faulty("a:(1^;", 2);
-        faulty("a:(^);", 2);
-        faulty("a:1^);", 2);
-        faulty("a:least^;", 2);
-        faulty("a:least(1^);", 2);
-        faulty("a:least(1,2^,3);", 2);
-        faulty("a:least(^if 1=1 then 2 else 3,2);", 2);
-        faulty("a:most(1,^if 1=1 then 2 else 3);", 2);
-        faulty("a:most ^1,2);", 2);
-        faulty("a:if 1 ^then 2 else 3;", 2);
-        faulty("a:if 1<2^<3 then 2 else 3;", 2);
-        faulty("a:if 1<2 ^else 3;", 2);
-        faulty("a:if 1<2 then 3^;", 2);
-        faulty("a:if 1<2 then 3 else^;", 2);
-        faulty("a:if 1<2 and 2<3 ^or 3<4 then 5 else 6;", 2);
-        faulty("a:if 1<2 or 2<3 ^and 3<4 then 5 else 6;", 2);
-        faulty("a:if not ^not 1<2 then 5 else 6;", 2);
-        faulty("a:if 1<^not 2 then 5 else 6;", 2);
-        faulty("a:if (1^<2) then 5 else 6;", 2);
-        faulty("a:1+^if 1=1 then 2 else 3;", 2);
-        faulty("a:if ^if 1=1 then 2 else 3 = 1 then 2 else 3;", 2);
+        Texts.faultyRules("a^", 2);
+        Texts.faultyRules("a   ^", 2);
+        Texts.faultyRules("a:^", 2);
+        Texts.faultyRules("a:1^", 2);
+        Texts.faultyRules("a:1 \n ^", 2);
+        Texts.faultyRules("^1:1;", 2);
+        Texts.faultyRules("^:1;", 2);
+        Texts.faultyRules("a ^1;", 2);
+        Texts.faultyRules("a:^;", 2);
+        Texts.faultyRules("a:1;^;", 2);
+        Texts.faultyRules("a:1 ^1;", 2);
+        Texts.faultyRules("a:1^b:2;", 2);
+        Texts.faultyRules("a:1+^;", 2);
+        Texts.faultyRules("a:^+1;", 2);
+        Texts.faultyRules("a:^-1;", 2);
+        Texts.faultyRules("a:1*^*1;", 2);
+        Texts.faultyRules("a:1^<2;", 2);
+        Texts.faultyRules("a:(1^;", 2);
+        Texts.faultyRules("a:(^);", 2);
+        Texts.faultyRules("a:1^);", 2);
+        Texts.faultyRules("a:least^;", 2);
+        Texts.faultyRules("a:least(1^);", 2);
+        Texts.faultyRules("a:least(1,2^,3);", 2);
+        Texts.faultyRules("a:least(^if 1=1 then 2 else 3,2);", 2);
+        Texts.faultyRules("a:most(1,^if 1=1 then 2 else 3);", 2);
+        Texts.faultyRules("a:most ^1,2);", 2);
+        Texts.faultyRules("a:if 1 ^then 2 else 3;", 2);
+        Texts.faultyRules("a:if 1<2^<3 then 2 else 3;", 2);
+        Texts.faultyRules("a:if 1<2 ^else 3;", 2);
+        Texts.faultyRules("a:if 1<2 then 3^;", 2);
+        Texts.faultyRules("a:if 1<2 then 3 else^;", 2);
+        Texts.faultyRules("a:if 1<2 and 2<3 ^or 3<4 then 5 else 6;", 2);
+        Texts.faultyRules("a:if 1<2 or 2<3 ^and 3<4 then 5 else 6;", 2);
+        Texts.faultyRules("a:if not ^not 1<2 then 5 else 6;", 2);
+        Texts.faultyRules("a:if 1<^not 2 then 5 else 6;", 2);
+        Texts.faultyRules("a:if (1^<2) then 5 else 6;", 2);
+        Texts.faultyRules("a:1+^if 1=1 then 2 else 3;", 2);
+        Texts.faultyRules("a:if ^if 1=1 then 2 else 3 = 1 then 2 else 3;", 2);
     }
 
     private static void nameFaults() {
         for (String word : new String[] {"if", "then", "else", "and", "or", "not", "least", "most", "server", "stratum",
             "ahead", "kind", "alike", "against", "way", "clock", "day", "month", "year", "abcdefghi"}) {
-            faulty("^" + word + ":1;", 2);
-            faulty("a:1;^" + word + ":1;", 2);
-            faulty("a:1;b:1;c:1;d:1;e:1;f:1;g:1;h:1;i:1;j:1;^" + word + ":1;", 2);
+            Texts.faultyRules("^" + word + ":1;", 2);
+            Texts.faultyRules("a:1;^" + word + ":1;", 2);
+            Texts.faultyRules("a:1;b:1;c:1;d:1;e:1;f:1;g:1;h:1;i:1;j:1;^" + word + ":1;", 2);
         }
-        good("ifs:1;thens:2;days:3;wait:4;refuse:5;", 5);
-        faulty("a:1;^a:2;", 4);
-        faulty("believe:1;b:2;^believe:3;", 4);
-        faulty("a:1;b:1;c:1;d:1;e:1;f:1;g:1;h:1;i:1;j:1;^k:1;", 3);
-        faulty("a:1;b:1;c:1;d:1;e:1;f:1;g:1;h:1;i:1;j:1;^a:1;", 3);
-        faulty("a:1;b:1;c:1;d:1;e:1;f:1;g:1;h:1;i:1;j:1;^a", 3);
+        Texts.goodRules("ifs:1;thens:2;days:3;wait:4;refuse:5;", 5);
+        Texts.faultyRules("a:1;^a:2;", 4);
+        Texts.faultyRules("believe:1;b:2;^believe:3;", 4);
+        Texts.faultyRules("a:1;b:1;c:1;d:1;e:1;f:1;g:1;h:1;i:1;j:1;^k:1;", 3);
+        Texts.faultyRules("a:1;b:1;c:1;d:1;e:1;f:1;g:1;h:1;i:1;j:1;^a:1;", 3);
+        Texts.faultyRules("a:1;b:1;c:1;d:1;e:1;f:1;g:1;h:1;i:1;j:1;^a", 3);
     }
 
     private static void depthFaults() {
-        good("a:(((((((1)))))));", 1);
-        faulty("a:((((((((^1))))))));", 5);
-        faulty("a:((((((((^(1)))))))));", 5);
-        faulty("a:((((((((^server))))))));", 5);
-        faulty("a:((((((((^unknownword))))))));", 5);
-        faulty("a:((((((((^if 1=1 then 2 else 3))))))));", 5);
-        faulty("a:((((((((^least(1,2)))))))));", 5);
-        faulty("a:((((((((^then))))))));", 2);
-        faulty("a:((((((((^not))))))));", 2);
-        faulty("a:((((((((^))))))));", 2);
-        faulty("a:((((((((^", 2);
+        Texts.goodRules("a:(((((((1)))))));", 1);
+        Texts.faultyRules("a:((((((((^1))))))));", 5);
+        Texts.faultyRules("a:((((((((^(1)))))))));", 5);
+        Texts.faultyRules("a:((((((((^server))))))));", 5);
+        Texts.faultyRules("a:((((((((^unknownword))))))));", 5);
+        Texts.faultyRules("a:((((((((^if 1=1 then 2 else 3))))))));", 5);
+        Texts.faultyRules("a:((((((((^least(1,2)))))))));", 5);
+        Texts.faultyRules("a:((((((((^then))))))));", 2);
+        Texts.faultyRules("a:((((((((^not))))))));", 2);
+        Texts.faultyRules("a:((((((((^))))))));", 2);
+        Texts.faultyRules("a:((((((((^", 2);
         String seven = "if 1=1 then 2 else if 1=1 then 2 else if 1=1 then 2 else if 1=1 then 2 else "
             + "if 1=1 then 2 else if 1=1 then 2 else if 1=1 then 2 else ";
-        good("a:" + seven + "3;", 1);
-        faulty("a:" + seven + "if 1=1 then ^2 else 3;", 5);
-        faulty("a:" + seven + "(^3);", 5);
-        good("a:" + seven.replace("1=1", "1+1*3=1") + "3*4+5;", 1);
-        good("a:if (((((((1)))))))=(((((((1))))))) then ((((((2)))))) else ((((((3))))));", 1);
-        faulty("a:if ((((((((^1))))))))=1 then 2 else 3;", 5);
-        faulty("a:if 1=1 then (((((((^2))))))) else 3;", 5);
-        faulty("a:if 1=1 then 2 else (((((((^3)))))));", 5);
-        good("a:least(least(least(least(least(least(least(1,2),2),2),2),2),2),2);", 1);
-        faulty("a:least(least(least(least(least(least(least(least(^1,2),2),2),2),2),2),2),2);", 5);
-        faulty("a:least(least(least(least(least(least(least(least(^if 1=1 then 1 else 2", 2);
-        faulty("a:least(2,most(2,least(2,most(2,least(2,most(2,least(2,(^3))))))));", 5);
-        faulty("a:(((((((most(^1,2))))))));", 5);
-        good("a:1;b:(((((((a)))))));c:(((((((b)))))));", 3);
+        Texts.goodRules("a:" + seven + "3;", 1);
+        Texts.faultyRules("a:" + seven + "if 1=1 then ^2 else 3;", 5);
+        Texts.faultyRules("a:" + seven + "(^3);", 5);
+        Texts.goodRules("a:" + seven.replace("1=1", "1+1*3=1") + "3*4+5;", 1);
+        Texts.goodRules("a:if (((((((1)))))))=(((((((1))))))) then ((((((2)))))) else ((((((3))))));", 1);
+        Texts.faultyRules("a:if ((((((((^1))))))))=1 then 2 else 3;", 5);
+        Texts.faultyRules("a:if 1=1 then (((((((^2))))))) else 3;", 5);
+        Texts.faultyRules("a:if 1=1 then 2 else (((((((^3)))))));", 5);
+        Texts.goodRules("a:least(least(least(least(least(least(least(1,2),2),2),2),2),2),2);", 1);
+        Texts.faultyRules("a:least(least(least(least(least(least(least(least(^1,2),2),2),2),2),2),2),2);", 5);
+        Texts.faultyRules("a:least(least(least(least(least(least(least(least(^if 1=1 then 1 else 2", 2);
+        Texts.faultyRules("a:least(2,most(2,least(2,most(2,least(2,most(2,least(2,(^3))))))));", 5);
+        Texts.faultyRules("a:(((((((most(^1,2))))))));", 5);
+        Texts.goodRules("a:1;b:(((((((a)))))));c:(((((((b)))))));", 3);
     }
 
     private static void wordFaults() {
-        faulty("a:^b;", 6);
-        faulty("a:^a;", 6);
-        faulty("a:1+^b;b:1;", 6);
-        faulty("a:^abcdefghijkl;", 6);
-        faulty("a:least(1,^zz);", 6);
-        faulty("a:if ^zz=1 then 2 else 3;", 6);
-        faulty("a:if not ^zz=1 then 2 else 3;", 6);
-        faulty("a:if 1=1 then ^zz else 3;", 6);
-        faulty("a:^then;", 2);
-        faulty("a:1*^else;", 2);
-        faulty("a:^and;", 2);
-        faulty("a:^or;", 2);
-        faulty("a:^not 1=1;", 2);
-        faulty("a:^believe;", 6);
-        faulty("aa:1;b:^a;", 6);
-        faulty("a:1;b:^aa;", 6);
-        good("a:1;b:a;", 2);
+        Texts.faultyRules("a:^b;", 6);
+        Texts.faultyRules("a:^a;", 6);
+        Texts.faultyRules("a:1+^b;b:1;", 6);
+        Texts.faultyRules("a:^abcdefghijkl;", 6);
+        Texts.faultyRules("a:least(1,^zz);", 6);
+        Texts.faultyRules("a:if ^zz=1 then 2 else 3;", 6);
+        Texts.faultyRules("a:if not ^zz=1 then 2 else 3;", 6);
+        Texts.faultyRules("a:if 1=1 then ^zz else 3;", 6);
+        Texts.faultyRules("a:^then;", 2);
+        Texts.faultyRules("a:1*^else;", 2);
+        Texts.faultyRules("a:^and;", 2);
+        Texts.faultyRules("a:^or;", 2);
+        Texts.faultyRules("a:^not 1=1;", 2);
+        Texts.faultyRules("a:^believe;", 6);
+        Texts.faultyRules("aa:1;b:^a;", 6);
+        Texts.faultyRules("a:1;b:^aa;", 6);
+        Texts.goodRules("a:1;b:a;", 2);
     }
 
     private static void firstFaultWins() {
-        faulty("a:^b; c:#;", 6);
-        faulty("a:1 ^1234567; b:zz;", 1);
-        faulty("a:1;^a:zz", 4);
-                faulty("a:((((((((^(#", 5);
-    }
-
-    /** A net with one NOTICE: SERVER 1 (of STRATUM 7) to CLOCK 2 (WAY 3) of DAY 800, kind -1, on the TRUE DAY 730. */
-    private static LeapNet oneNotice(String text) {
-        LeapNet x = new LeapNet();
-        x.server(0);
-        x.server(7);
-        x.clock(0);
-        x.clock(1);
-        x.clock(3);
-        Check.due(x, text, Check.rules(x, text, 0) >= 0 ? 1 : 0, 1, 0);
-        x.notice(1, 2, 800, -1, 730 * 86_400);
-        return x;
-    }
-
-    private static void value(String sum, String is) {
-        LeapNet x = oneNotice("believe: if " + sum + " = " + is + " then 1 else 0;");
-        Check.due(sum + " is " + is, x.told(0, 1), 1);
+        Texts.faultyRules("a:^b; c:#;", 6);
+        Texts.faultyRules("a:1 ^1234567; b:zz;", 1);
+        Texts.faultyRules("a:1;^a:zz", 4);
+        Texts.faultyRules("a:((((((((^(#", 5);
     }
 
     private static void values() {
-        value("1+2*3", "7");
-        value("(1+2)*3", "9");
-        value("10-3-2", "5");
-        value("100/7/2", "7");
-        value("100/(7/2)", "33");
-        value("100%7*3", "6");
-        value("2*100%7", "4");
-        value("(0-7)/2", "0-3");
-        value("(0-7)%2", "0-1");
-        value("7/(0-2)", "0-3");
-        value("7%(0-2)", "1");
-        value("least(3,5)+10*most(3,5)", "53");
-        value("least(0-3,5)", "0-3");
-        value("server", "1");
-        value("stratum", "7");
-        value("ahead", "70");
-        value("kind", "0-1");
-        value("alike", "0");
-        value("against", "0");
-        value("way", "3");
-        value("clock", "2");
-        value("day", "730");
-        value("month", "0");
-        value("year", "2");
-        value("(if 1<2 then 5 else 6)", "5");
-        value("(if 2<1 then 5 else 6)", "6");
-        value("(if 1=1 then if 1=2 then 7 else 8 else 9)", "8");
-        value("(if 1=2 then 6 else if 1=2 then 7 else 8)", "8");
+        Texts.value("1+2*3", "7");
+        Texts.value("(1+2)*3", "9");
+        Texts.value("10-3-2", "5");
+        Texts.value("100/7/2", "7");
+        Texts.value("100/(7/2)", "33");
+        Texts.value("100%7*3", "6");
+        Texts.value("2*100%7", "4");
+        Texts.value("(0-7)/2", "0-3");
+        Texts.value("(0-7)%2", "0-1");
+        Texts.value("7/(0-2)", "0-3");
+        Texts.value("7%(0-2)", "1");
+        Texts.value("least(3,5)+10*most(3,5)", "53");
+        Texts.value("least(0-3,5)", "0-3");
+        Texts.value("server", "1");
+        Texts.value("stratum", "7");
+        Texts.value("ahead", "70");
+        Texts.value("kind", "0-1");
+        Texts.value("alike", "0");
+        Texts.value("against", "0");
+        Texts.value("way", "3");
+        Texts.value("clock", "2");
+        Texts.value("day", "730");
+        Texts.value("month", "0");
+        Texts.value("year", "2");
+        Texts.value("(if 1<2 then 5 else 6)", "5");
+        Texts.value("(if 2<1 then 5 else 6)", "6");
+        Texts.value("(if 1=1 then if 1=2 then 7 else 8 else 9)", "8");
+        Texts.value("(if 1=2 then 6 else if 1=2 then 7 else 8)", "8");
         // 999999 four times is 999996000005999996000001: of 64 bits, -1996229794797103359
-        value("999999*999999*999999*999999/1000/1000/1000/1000", "0-1996*1000-229");
-        value("999999*999999*999999*999999%1000", "0-359");
-    }
-
-    private static void believes(String text, int due) {
-        Check.due(text, oneNotice(text).told(0, 1), due);
+        Texts.value("999999*999999*999999*999999/1000/1000/1000/1000", "0-1996*1000-229");
+        Texts.value("999999*999999*999999*999999%1000", "0-359");
     }
 
     private static void noValues() {
-        believes("believe:1/0;", 0);
-        believes("believe:1%0;", 0);
-        believes("believe:0;", 0);
-        believes("believe:5;", 1);
-        believes("believe:0-5;", 1);
-        believes("believe:1+1/0;", 0);
-        believes("believe:1/0+1;", 0);
-        believes("believe:most(1,1/0);", 0);
-        believes("believe:least(1%0,1);", 0);
-        believes("believe:(1/0)*0+1;", 0);
-        believes("believe:5/(1/0);", 0);
-        believes("a:1/0;believe:a;", 0);
-        believes("a:1/0;believe:1;", 1);
-        believes("believe:1;a:1/0;", 1);
-        believes("believe:if 1=1 then 1 else 1/0;", 1);
-        believes("believe:if 1=2 then 1/0 else 1;", 1);
-        believes("believe:if 1=1 then 1/0 else 1;", 0);
-        believes("believe:if 1/0=1/0 then 1 else 0;", 0);
-        believes("believe:if not 1/0=1 then 1 else 0;", 0);
-        believes("believe:if 1/0<1 then 0 else 1;", 1);
-        believes("believe:if not 1/0<1 then 0 else 1;", 1);
-        believes("believe:if 1/0>1 or 1=1 then 1 else 0;", 1);
-        believes("believe:if not 1%0>1 and 1=1 then 1 else 0;", 0);
-        believes("believe:1;a:2;", 1);
-        believes("a:0;", 1);
-        believes("", 1);
-        believes("a:1;believe:0;b:1;", 0);
-        believes("a:0;b:a+1;c:b*b+b;believe:c-2;", 0);
+        Texts.believes("believe:1/0;", 0);
+        Texts.believes("believe:1%0;", 0);
+        Texts.believes("believe:0;", 0);
+        Texts.believes("believe:5;", 1);
+        Texts.believes("believe:0-5;", 1);
+        Texts.believes("believe:1+1/0;", 0);
+        Texts.believes("believe:1/0+1;", 0);
+        Texts.believes("believe:most(1,1/0);", 0);
+        Texts.believes("believe:least(1%0,1);", 0);
+        Texts.believes("believe:(1/0)*0+1;", 0);
+        Texts.believes("believe:5/(1/0);", 0);
+        Texts.believes("a:1/0;believe:a;", 0);
+        Texts.believes("a:1/0;believe:1;", 1);
+        Texts.believes("believe:1;a:1/0;", 1);
+        Texts.believes("believe:if 1=1 then 1 else 1/0;", 1);
+        Texts.believes("believe:if 1=2 then 1/0 else 1;", 1);
+        Texts.believes("believe:if 1=1 then 1/0 else 1;", 0);
+        Texts.believes("believe:if 1/0=1/0 then 1 else 0;", 0);
+        Texts.believes("believe:if not 1/0=1 then 1 else 0;", 0);
+        Texts.believes("believe:if 1/0<1 then 0 else 1;", 1);
+        Texts.believes("believe:if not 1/0<1 then 0 else 1;", 1);
+        Texts.believes("believe:if 1/0>1 or 1=1 then 1 else 0;", 1);
+        Texts.believes("believe:if not 1%0>1 and 1=1 then 1 else 0;", 0);
+        Texts.believes("believe:1;a:2;", 1);
+        Texts.believes("a:0;", 1);
+        Texts.believes("", 1);
+        Texts.believes("a:1;believe:0;b:1;", 0);
+        Texts.believes("a:0;b:a+1;c:b*b+b;believe:c-2;", 0);
     }
 
     private static void tests() {
-        believes("believe:if 1<1 then 1 else 0;", 0);
-        believes("believe:if 1>1 then 1 else 0;", 0);
-        believes("believe:if 2>1 then 1 else 0;", 1);
-        believes("believe:if not 1<1 then 1 else 0;", 1);
-        believes("believe:if not 1=1 then 1 else 0;", 0);
-        believes("believe:if 1=1 and 2=2 and 3=4 then 1 else 0;", 0);
-        believes("believe:if 1=1 and 2=2 and 3=3 then 1 else 0;", 1);
-        believes("believe:if 1=2 or 2=3 or 3=3 then 1 else 0;", 1);
-        believes("believe:if 1=2 or 2=3 or 3=4 then 1 else 0;", 0);
-        believes("believe:if not 1=2 and not 2=3 then 1 else 0;", 1);
-        believes("believe:if not 1=1 or not 2=2 then 1 else 0;", 0);
-        believes("believe:if 1+1=2 and least(3,4)=3 then 1 else 0;", 1);
+        Texts.believes("believe:if 1<1 then 1 else 0;", 0);
+        Texts.believes("believe:if 1>1 then 1 else 0;", 0);
+        Texts.believes("believe:if 2>1 then 1 else 0;", 1);
+        Texts.believes("believe:if not 1<1 then 1 else 0;", 1);
+        Texts.believes("believe:if not 1=1 then 1 else 0;", 0);
+        Texts.believes("believe:if 1=1 and 2=2 and 3=4 then 1 else 0;", 0);
+        Texts.believes("believe:if 1=1 and 2=2 and 3=3 then 1 else 0;", 1);
+        Texts.believes("believe:if 1=2 or 2=3 or 3=3 then 1 else 0;", 1);
+        Texts.believes("believe:if 1=2 or 2=3 or 3=4 then 1 else 0;", 0);
+        Texts.believes("believe:if not 1=2 and not 2=3 then 1 else 0;", 1);
+        Texts.believes("believe:if not 1=1 or not 2=2 then 1 else 0;", 0);
+        Texts.believes("believe:if 1+1=2 and least(3,4)=3 then 1 else 0;", 1);
     }
 
     private static void longTexts() {
@@ -359,8 +320,8 @@ public final class RulesTest {
         for (int i = 0; i < 230; i++) {
             sum.append(i % 3 == 2 ? "-1" : "+1");
         }
-        believes(sum + "=78 then 1 else 0;", 1);
-        believes(sum + "=77 then 1 else 0;", 0);
+        Texts.believes(sum + "=78 then 1 else 0;", 1);
+        Texts.believes(sum + "=77 then 1 else 0;", 0);
         StringBuilder deep = new StringBuilder("believe:");
         for (int i = 0; i < 7; i++) {
             deep.append("if 1=1 and 2=1+1*most(1,");
@@ -379,6 +340,6 @@ public final class RulesTest {
         for (int i = 0; i < 7; i++) {
             full.append(") then 1 else 0");
         }
-        believes(full.append(";").toString(), 1);
+        Texts.believes(full.append(";").toString(), 1);
     }
 }
