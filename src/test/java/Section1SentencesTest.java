@@ -314,6 +314,11 @@ public final class Section1SentencesTest {
         dueShown(x, 2 * DAY - 1, last, last, last, last - 1_000);
         dueShown(x, 2 * DAY, last + 1_000, last, last + 999, last);
         dueShown(x, 2 * DAY + 1, 2 * SHOWN, 2 * SHOWN, 2 * SHOWN, 2 * SHOWN);
+        // asked behind the longer DAY, those about it are as they were
+        long next = 2 * SHOWN + 86_399_000;
+        dueShown(x, 3 * DAY, next, next, next, next);
+        dueShown(x, 2 * DAY, last + 1_000, last, last + 999, last);
+        dueShown(x, DAY - 1, 86_399_000, 86_399_000, 86_399_000, 86_399_000);
     }
 
     static void s1_daysAreShownBy100000000() {

@@ -218,6 +218,7 @@ public final class Section2SentencesTest {
         Texts.faultyRules("a:most(1,^);", 2);
         Texts.faultyRules("a:most(1,1^,1);", 2);
         Texts.faultyRules("a:most(^if 1=1 then 1 else 2,1);", 2);
+        Texts.faultyRules("a:most(1,^if 1=1 then 1 else 2);", 2);
         Texts.value("least(2,2)+least(1,2)*10+least(2,1)*100", "112");
         Texts.value("most(2,2)+most(1,2)*10+most(2,1)*100", "222");
     }

@@ -121,6 +121,19 @@ public final class Section5SentencesTest {
         Texts.faultyProgram(FORTY_LINES + "^;", 2);
     }
 
+    static void s5_fortyLinesAreRun() {
+        Sentences.says("3 a 41st LINE (at its WORD)");
+        LeapNet x = net(1, "again 2{}".repeat(39) + "stamp;");
+        dueRun(x, 4, 5, 0, 5, 0);
+        dueKept(x, 5_000);
+        LeapNet y = net(1, "again 2{}".repeat(40));
+        dueRun(y, 4, 5, 0, 5, 0);
+        dueKept(y);
+        LeapNet z = net(1, "stamp;".repeat(39) + "wait 1;");
+        dueRun(z, 4, 5, 0, 6, 0);
+        Check.due(z, "39 stamps", z.ran(2), 39, 0);
+    }
+
     static void s5_fault4ANumberThatCannotBe() {
         Sentences.says("4 a NUMBER that can't be: of wait 1 to 3,600, of until 0 to 23, 0 to 59, 0 to 59, of again 2 to 20");
         Texts.goodProgram("wait 1;wait 3600;", 2);

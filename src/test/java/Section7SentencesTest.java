@@ -396,6 +396,50 @@ public final class Section7SentencesTest {
             none(12, "stamp at 0", x -> x.stamp(0, 0))));
     }
 
+    /** Each call with arguments of which several are wrong at once; pour(), answers() and find() have orders of their own. */
+    static void s7_theFirstOfTheseThatHolds() {
+        Sentences.says("STATUS of a call is the first of these that holds");
+        dueRefused(LeapNet::new, List.of(
+            no(1, "tray: 1, 5", x -> x.tray(4, 0, 41)),
+            no(1, "tray: 1, 6", x -> x.tray(0, 4, -1)),
+            no(1, "write: 1, 4", x -> x.write(-1, -1, 0)),
+            no(3, "write: 3, 4", x -> x.write(0, -1, 0)),
+            none(1, "read: 1, 4", x -> x.read(4, 40)),
+            none(3, "read: 3, 4", x -> x.read(0, 40)),
+            none(5, "count: 5, 9", x -> x.count(10_000, 86_400)),
+            no(2, "step: 2, 5", x -> x.step(0, -1)),
+            none(2, "shows: 2, 5", x -> x.shows(0, -1)),
+            none(2, "ahead: 2, 5", x -> x.ahead(0, -1)),
+            none(2, "off: 2, 5", x -> x.off(0, 0, -1)),
+            none(5, "worst: 5, 8", x -> x.worst(-1, 0, 0)),
+            none(2, "notice: 2, 5", x -> x.notice(0, 0, -1, 0, -1)),
+            none(2, "told: 2, 5", x -> x.told(0, 4)),
+            none(2, "table: 2, 5", x -> x.table(0, -1)),
+            none(2, "stamp: 2, 5", x -> x.stamp(0, -1)),
+            none(2, "run: 2, 5, 8", x -> x.run(0, -1)),
+            none(5, "ran: 5, 8", x -> x.ran(3)),
+            none(5, "span: 5, 8", x -> x.span(2)),
+            no(2, "land: 2, 5", x -> x.land(4, -721, 0, 0)),
+            none(2, "local: 2, 5", x -> x.local(4, -1)),
+            none(2, "oft: 2, 5", x -> x.oft(4, 0, 0))));
+        dueRefused(Section7SentencesTest::full, List.of(
+            no(5, "leap: 5, 7", x -> x.leap(20, 2)),
+            none(5, "clock: 5, 7", x -> x.clock(4)),
+            no(2, "step: 2, 5, 7", x -> x.step(12, -1)),
+            no(5, "step: 5, 7", x -> x.step(0, -1)),
+            none(5, "rules: 5, 7", x -> x.rules(501, 0)),
+            none(7, "rules: 7, 10", x -> x.rules(1, 0)),
+            none(5, "server: 5, 7", x -> x.server(16)),
+            none(2, "notice: 2, 7, 12", x -> x.notice(8, 0, 1, 1, 0)),
+            none(5, "notice: 5, 7, 12", x -> x.notice(0, 0, 1, 0, 0)),
+            none(7, "notice: 7, 12", x -> x.notice(0, 0, 1, 1, 0)),
+            none(2, "stamp: 2, 7, 12", x -> x.stamp(12, 0)),
+            none(5, "stamp: 5, 7, 12", x -> x.stamp(0, -1)),
+            none(7, "stamp: 7, 12", x -> x.stamp(0, 0)),
+            none(5, "run: 5, 8", x -> x.run(0, 899_990_001)),
+            none(5, "program: 5, 10", x -> x.program(501))));
+    }
+
     static void s7_0Else() {
         Sentences.says("0 else.");
         List<ToLongFunction<LeapNet>> good = List.of(
