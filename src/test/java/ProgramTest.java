@@ -143,22 +143,8 @@ public final class ProgramTest {
         Check.refused(x, "kept(" + kept.length + ")", x.kept(kept.length), 8);
     }
 
-    /** A net whose four CLOCKS, one of each WAY, are told of a true DAY 1; a fifth (WAY 0) is not. */
-    private static LeapNet net(int kind, String program) {
-        LeapNet x = new LeapNet();
-        x.leap(1, kind);
-        x.server(0);
-        for (int way = 0; way < 4; way++) {
-            x.clock(way);
-            x.notice(0, way, 1, kind, 0);
-        }
-        x.clock(0);
-        Check.due(x, program, Check.program(x, program) >= 0 ? 1 : 0, 1, 0);
-        return x;
-    }
-
     private static void waits() {
-        LeapNet x = net(1, "stamp; wait 5; stamp; wait 3600; stamp;");
+        LeapNet x = Nets.withProgram(1, "stamp; wait 5; stamp; wait 3600; stamp;");
         Check.due(x, "run", x.run(0, 100), 0, 0);
         dueRan(x, 3_705, 0, 100_000, 105_000, 3_705_000);
         Check.due(x, "run over midnight", x.run(0, DAY - 2), 0, 0);
@@ -166,13 +152,13 @@ public final class ProgramTest {
         // a CLOCK that smears is slower in a longer DAY: the long wait takes one COUNT more
         Check.due(x, "run while it smears", x.run(3, DAY + 1_000), 0, 0);
         dueRan(x, DAY + 4_606, 1, SHOWN + 999_988, SHOWN + 1_004_988, SHOWN + 4_605_946);
-        LeapNet y = net(-1, "wait 3600; wait 1;");
+        LeapNet y = Nets.withProgram(-1, "wait 3600; wait 1;");
         Check.due(y, "run while it smears", y.run(3, DAY + 1_000), 0, 0);
         dueRan(y, DAY + 4_601, 0);
     }
 
     private static void waitsOverTheSecond() {
-        LeapNet x = net(1, "wait 5; stamp;");
+        LeapNet x = Nets.withProgram(1, "wait 5; stamp;");
         // a DAY counts 86,400,000: the CLOCK that tells stands at it in SECOND 86,400 and in the next DAY's 0
         Check.due(x, "it tells", x.run(0, 2 * DAY - 3), 0, 0);
         dueRan(x, 2 * DAY + 3, 1, 2 * SHOWN + 2_000);
@@ -182,26 +168,26 @@ public final class ProgramTest {
         dueRan(x, 2 * DAY + 3, 1, 2 * SHOWN + 2_000);
         Check.due(x, "it was not told", x.run(4, 2 * DAY - 3), 0, 0);
         dueRan(x, 2 * DAY + 2, 0, 2 * SHOWN + 2_000);
-        LeapNet y = net(1, "wait 3; stamp;");
+        LeapNet y = Nets.withProgram(1, "wait 3; stamp;");
         Check.due(y, "it tells, up to it", y.run(0, 2 * DAY - 3), 0, 0);
         dueRan(y, 2 * DAY, 0, SHOWN + 86_400_000);
         Check.due(y, "it repeats, up to it", y.run(1, 2 * DAY - 3), 0, 0);
         dueRan(y, 2 * DAY + 1, 1, 2 * SHOWN);
-        LeapNet z = net(-1, "wait 5; stamp;");
+        LeapNet z = Nets.withProgram(-1, "wait 5; stamp;");
         Check.due(z, "a second less", z.run(0, 2 * DAY - 3), 0, 0);
         dueRan(z, 2 * DAY + 1, -1, 2 * SHOWN + 2_000);
     }
 
     private static void waitsOverSteps() {
-        LeapNet x = net(1, "wait 5; wait 6; stamp;");
+        LeapNet x = Nets.withProgram(1, "wait 5; wait 6; stamp;");
         x.step(4, 2 * DAY + 13);
         Check.due(x, "it is stepped back", x.run(4, 2 * DAY + 10), 0, 0);
         dueRan(x, 2 * DAY + 22, 1, 2 * SHOWN + 21_000);
-        LeapNet y = net(-1, "wait 5; wait 6; stamp;");
+        LeapNet y = Nets.withProgram(-1, "wait 5; wait 6; stamp;");
         y.step(4, 2 * DAY + 13);
         Check.due(y, "it is stepped on", y.run(4, 2 * DAY + 10), 0, 0);
         dueRan(y, 2 * DAY + 20, -1, 2 * SHOWN + 21_000);
-        LeapNet z = net(1, "wait 5; stamp;");
+        LeapNet z = Nets.withProgram(1, "wait 5; stamp;");
         z.leap(2, 1);
         z.leap(3, 1);
         z.step(4, 5 * DAY + 13);
@@ -210,15 +196,15 @@ public final class ProgramTest {
     }
 
     private static void untils() {
-        LeapNet x = net(1, "until 1:0:0; stamp; until 0:59:59; stamp; until 1:0:1; stamp;");
+        LeapNet x = Nets.withProgram(1, "until 1:0:0; stamp; until 0:59:59; stamp; until 1:0:1; stamp;");
         Check.due(x, "run", x.run(0, 3_000), 0, 0);
         dueRan(x, 3_601, 0, 3_600_000, 3_600_000, 3_601_000);
-        LeapNet y = net(1, "until 23:59:59; stamp; wait 1; until 0:0:0; stamp;");
+        LeapNet y = Nets.withProgram(1, "until 23:59:59; stamp; wait 1; until 0:0:0; stamp;");
         Check.due(y, "run to midnight", y.run(0, DAY - 100), 0, 0);
         dueRan(y, DAY, 0, 86_399_000, SHOWN);
         Check.due(y, "run while it smears", y.run(3, 2 * DAY - 100), 0, 0);
         dueRan(y, 2 * DAY + 1, 0, SHOWN + 86_399_000, 2 * SHOWN);
-        LeapNet z = net(-1, "until 23:59:59; stamp;");
+        LeapNet z = Nets.withProgram(-1, "until 23:59:59; stamp;");
         Check.due(z, "a second that it has not", z.run(0, 2 * DAY - 10), 2, 0);
         dueRan(z, 2 * DAY + 4_990, 0);
         Check.due(z, "at once in it", z.run(3, 2 * DAY - 2), 2, 0);
@@ -227,7 +213,7 @@ public final class ProgramTest {
 
     private static void parses() {
         String all = "parse take; parse fold; stamp; parse refuse; stamp;";
-        LeapNet x = net(1, all);
+        LeapNet x = Nets.withProgram(1, all);
         Check.due(x, "it tells", x.run(0, 2 * DAY), 1, 0);
         dueRan(x, 2 * DAY, 0, SHOWN + 86_400_000, 2 * SHOWN, SHOWN + 86_400_000);
         long last = SHOWN + 86_399_000;
@@ -237,36 +223,36 @@ public final class ProgramTest {
         Check.due(x, "what it shows", x.kept(3), SHOWN + 86_399_999, 0);
         Check.due(x, "the next DAY's 0", x.run(0, 2 * DAY + 1), 0, 0);
         Check.due(x, "is kept as it is", x.kept(1), 2 * SHOWN, 0);
-        LeapNet y = net(1, "wait 1; parse refuse; stamp; wait 100;");
+        LeapNet y = Nets.withProgram(1, "wait 1; parse refuse; stamp; wait 100;");
         Check.due(y, "refused behind a wait", y.run(0, 2 * DAY - 1), 1, 0);
         dueRan(y, 2 * DAY, 0);
-        LeapNet z = net(1, "again 5 { again 3 { wait 1; parse refuse; } stamp; }");
+        LeapNet z = Nets.withProgram(1, "again 5 { again 3 { wait 1; parse refuse; } stamp; }");
         Check.due(z, "refused within agains", z.run(0, 2 * DAY - 5), 1, 0);
         dueRan(z, 2 * DAY, 0, SHOWN + 86_396_000, SHOWN + 86_397_000, SHOWN + 86_398_000, SHOWN + 86_398_000,
             SHOWN + 86_399_000);
     }
 
     private static void agains() {
-        LeapNet x = net(1, "again 2 { stamp; again 3 { wait 1; } } stamp; again 20 { } again 2 { again 2 { again 2 {"
+        LeapNet x = Nets.withProgram(1, "again 2 { stamp; again 3 { wait 1; } } stamp; again 20 { } again 2 { again 2 { again 2 {"
             + " wait 10; } } stamp; }");
         Check.due(x, "run", x.run(0, 0), 0, 0);
         dueRan(x, 86, 0, 0, 3_000, 6_000, 46_000, 86_000);
     }
 
     private static void ever() {
-        LeapNet x = net(1, "again 20 { wait 1000; stamp; }");
+        LeapNet x = Nets.withProgram(1, "again 20 { wait 1000; stamp; }");
         Check.due(x, "run", x.run(0, 500), 2, 0);
         dueRan(x, 5_500, 0, 1_500_000, 2_500_000, 3_500_000, 4_500_000, 5_500_000);
-        LeapNet y = net(1, "wait 3600; wait 1401; stamp;");
+        LeapNet y = Nets.withProgram(1, "wait 3600; wait 1401; stamp;");
         Check.due(y, "one behind the 5,000th", y.run(0, 7), 2, 0);
         dueRan(y, 5_007, 0);
-        LeapNet z = net(1, "wait 3600; wait 1400; stamp;");
+        LeapNet z = Nets.withProgram(1, "wait 3600; wait 1400; stamp;");
         Check.due(z, "late waits", z.run(1, 2 * DAY - 100), 2, 0);
         dueRan(z, 2 * DAY + 4_900, 1);
-        LeapNet w = net(1, "until 23:0:0; stamp;");
+        LeapNet w = Nets.withProgram(1, "until 23:0:0; stamp;");
         Check.due(w, "until for ever", w.run(0, 0), 2, 0);
         dueRan(w, 5_000, 0);
-        LeapNet v = net(1, "until 1:23:21; stamp;");
+        LeapNet v = Nets.withProgram(1, "until 1:23:21; stamp;");
         Check.due(v, "until one behind the 5,000th", v.run(0, 0), 2, 0);
         dueRan(v, 5_000, 0);
         Check.due(v, "until the 5,000th", v.run(0, 1), 0, 0);
@@ -275,26 +261,26 @@ public final class ProgramTest {
 
     /** A LINE that is over at just the 5,000th COUNT is done, and the RUN with it if it is the last. */
     private static void overAtTheLastCount() {
-        LeapNet x = net(1, "wait 3600; wait 1399; stamp;");
+        LeapNet x = Nets.withProgram(1, "wait 3600; wait 1399; stamp;");
         Check.due(x, "ahead of the 5,000th", x.run(0, 7), 0, 0);
         dueRan(x, 5_006, 0, 5_006_000);
         Check.due(x, "late, at the 5,000th", x.run(1, 2 * DAY - 100), 0, 0);
         dueRan(x, 2 * DAY + 4_900, 1, 2 * SHOWN + 4_899_000);
-        LeapNet y = net(1, "wait 3600; wait 1400;");
+        LeapNet y = Nets.withProgram(1, "wait 3600; wait 1400;");
         Check.due(y, "a wait, the last LINE", y.run(0, 0), 0, 0);
         dueRan(y, 5_000, 0);
         Check.due(y, "from the last COUNT on", y.run(0, 899_990_000), 0, 0);
         dueRan(y, 899_995_000, 0);
-        LeapNet z = net(-1, "wait 3600; wait 1401;");
+        LeapNet z = Nets.withProgram(-1, "wait 3600; wait 1401;");
         Check.due(z, "a wait that is shorter", z.run(0, 2 * DAY - 100), 0, 0);
         dueRan(z, 2 * DAY + 4_900, -1);
-        LeapNet w = net(1, "until 1:23:20;");
+        LeapNet w = Nets.withProgram(1, "until 1:23:20;");
         Check.due(w, "an until, the last LINE", w.run(0, 0), 0, 0);
         dueRan(w, 5_000, 0);
-        LeapNet v = net(1, "again 5 { wait 1000; }");
+        LeapNet v = Nets.withProgram(1, "again 5 { wait 1000; }");
         Check.due(v, "the last time of an again", v.run(4, 20), 0, 0);
         dueRan(v, 5_020, 0);
-        LeapNet u = net(-1, "wait 3600; wait 1401; stamp;");
+        LeapNet u = Nets.withProgram(-1, "wait 3600; wait 1401; stamp;");
         u.step(4, 2 * DAY + 4_900);
         Check.due(u, "a STEP at the 5,000th ends it", u.run(4, 2 * DAY - 100), 0, 0);
         dueRan(u, 2 * DAY + 4_900, -1, 2 * SHOWN + 4_901_000);
@@ -302,29 +288,29 @@ public final class ProgramTest {
 
     /** At the 5,000th COUNT what takes no time is done; what would have to go on is for EVER. */
     private static void behindTheLastCount() {
-        LeapNet x = net(1, "wait 3600; wait 1400; stamp; until 1:23:20; until 0:0:0; again 2 { parse refuse; }");
+        LeapNet x = Nets.withProgram(1, "wait 3600; wait 1400; stamp; until 1:23:20; until 0:0:0; again 2 { parse refuse; }");
         Check.due(x, "all that takes no time", x.run(0, 0), 0, 0);
         dueRan(x, 5_000, 0, 5_000_000, 5_000_000, 5_000_000);
         Check.due(x, "an until that goes on", x.run(0, 3 * DAY + 1 - 5_000), 2, 0);
         dueRan(x, 3 * DAY + 1, 0, 3 * SHOWN);
-        LeapNet y = net(1, "until 1:23:20; stamp; wait 1; stamp;");
+        LeapNet y = Nets.withProgram(1, "until 1:23:20; stamp; wait 1; stamp;");
         Check.due(y, "a wait that begins there", y.run(0, 0), 2, 0);
         dueRan(y, 5_000, 0, 5_000_000);
-        LeapNet z = net(1, "wait 3600; wait 1400; stamp; until 1:23:21; stamp;");
+        LeapNet z = Nets.withProgram(1, "wait 3600; wait 1400; stamp; until 1:23:21; stamp;");
         Check.due(z, "an until that begins there", z.run(0, 0), 2, 0);
         dueRan(z, 5_000, 0, 5_000_000);
-        LeapNet w = net(1, "wait 3600; wait 1400; parse take; parse refuse; stamp;");
+        LeapNet w = Nets.withProgram(1, "wait 3600; wait 1400; parse take; parse refuse; stamp;");
         Check.due(w, "refused there", w.run(0, 2 * DAY - 5_000), 1, 0);
         dueRan(w, 2 * DAY, 0, SHOWN + 86_400_000);
     }
 
     private static void mostKept() {
-        LeapNet x = net(1, "again 20 { stamp; parse take; wait 1; }");
+        LeapNet x = Nets.withProgram(1, "again 20 { stamp; parse take; wait 1; }");
         Check.due(x, "run", x.run(0, 0), 0, 0);
         Check.due(x, "forty", x.ran(2), 40, 0);
         Check.due(x, "kept(39)", x.kept(39), 19_000, 0);
         Check.refused(x, "kept(40)", x.kept(40), 8);
-        LeapNet y = net(1, "again 20 { stamp; parse take; wait 1; } stamp; parse fold;");
+        LeapNet y = Nets.withProgram(1, "again 20 { stamp; parse take; wait 1; } stamp; parse fold;");
         Check.due(y, "run", y.run(0, 0), 0, 0);
         Check.due(y, "forty-two in all", y.ran(2), 42, 0);
         Check.due(y, "kept(39)", y.kept(39), 19_000, 0);
@@ -333,7 +319,7 @@ public final class ProgramTest {
     }
 
     private static void keptOfLatest() {
-        LeapNet x = net(1, "stamp; wait 3; stamp;");
+        LeapNet x = Nets.withProgram(1, "stamp; wait 3; stamp;");
         x.run(0, 10);
         Check.refused(x, "no clock 5", x.run(5, 10), 2);
         dueRan(x, 13, 0, 10_000, 13_000);
@@ -347,7 +333,7 @@ public final class ProgramTest {
     }
 
     private static void manyRows() {
-        LeapNet x = net(1, "again 20 { again 20 { again 20 { " + "stamp;".repeat(37) + " } } }");
+        LeapNet x = Nets.withProgram(1, "again 20 { again 20 { again 20 { " + "stamp;".repeat(37) + " } } }");
         Check.due(x, "run", x.run(0, 0), 0, 0);
         Check.due(x, "all are kept count", x.ran(2), 20 * 20 * 20 * 37, 0);
     }

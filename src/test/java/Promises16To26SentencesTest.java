@@ -8,16 +8,6 @@ public final class Promises16To26SentencesTest {
         Sentences.run(Promises16To26SentencesTest.class);
     }
 
-    /** One SERVER, and so many CLOCKS of WAY 1. */
-    private static LeapNet net(int clocks) {
-        LeapNet x = new LeapNet();
-        x.server(0);
-        for (int i = 0; i < clocks; i++) {
-            x.clock(1);
-        }
-        return x;
-    }
-
     static void p16_twentyBytesTheHighestFirst() {
         Sentences.says("Twenty bytes come behind those on the tape, the highest of each int first: how many it has");
         LeapNet x = new LeapNet();
@@ -132,7 +122,7 @@ public final class Promises16To26SentencesTest {
 
     static void p20_aNotice() {
         Sentences.says("A NOTICE: its number (2; 5: also a kind other than 1 and -1; 7; 12).");
-        LeapNet x = net(2);
+        LeapNet x = Nets.ofClocks(2, 1);
         x.server(1);
         Check.range(x, "SERVER", n -> x.notice(n, 0, 1, 1, 9), 0, 1, 2);
         Check.range(x, "CLOCK", n -> x.notice(0, n, 1, 1, 9), 0, 1, 2);
@@ -161,7 +151,7 @@ public final class Promises16To26SentencesTest {
     static void p21_toldOfANotice() {
         Sentences.says("Of a NOTICE, what 0: whether it came IN TIME, 1: is BELIEVED, 2: is FALSE, 3: whether its CLOCK is FOOLED by it: "
             + "1 or 0 (2; 5).");
-        LeapNet x = net(1);
+        LeapNet x = Nets.ofClocks(1, 1);
         Check.refused(x, "no NOTICE", x.told(0, 0), 2);
         Check.rules(x, "believe:if ahead=3 then 0 else 1;", 0);
         x.leap(2, 1);
@@ -182,7 +172,7 @@ public final class Promises16To26SentencesTest {
 
     static void p22_whatATableTells() {
         Sentences.says("What a CLOCK's TABLE tells of a DAY: 1, 0, or -1 (STATUS tells NONE from -1) (2; 5).");
-        LeapNet x = net(2);
+        LeapNet x = Nets.ofClocks(2, 1);
         x.notice(0, 1, 0, 1, 0);
         x.notice(0, 1, 9_999, -1, 0);
         Check.due(x, "1", x.table(1, 0), 1, 0);
@@ -196,7 +186,7 @@ public final class Promises16To26SentencesTest {
 
     static void p23_howManyMisses() {
         Sentences.says("MISSES of a CLOCK: how many (2).");
-        LeapNet x = net(2);
+        LeapNet x = Nets.ofClocks(2, 1);
         for (int i = 0; i < 20; i++) {
             x.leap(i, 1);
         }
@@ -233,7 +223,7 @@ public final class Promises16To26SentencesTest {
 
     static void p25_howManyPairsAreWrong() {
         Sentences.says("How many pairs of STAMPS are WRONG.");
-        LeapNet x = net(1);
+        LeapNet x = Nets.ofClocks(1, 1);
         Check.due(x, "no STAMPS", x.wrong(), 0, 0);
         x.notice(0, 0, 1, 1, 0);
         x.stamp(0, 2 * DAY - 1);
@@ -254,7 +244,7 @@ public final class Promises16To26SentencesTest {
         Check.due(x, "the set, of none", x.blamed(1), 0, 0);
         Check.due(x, "RIVALS, of none", x.blamed(2), 1, 0);
         // CLOCK 11 is WRONG with each other
-        LeapNet y = net(12);
+        LeapNet y = Nets.ofClocks(12, 1);
         y.leap(0, 1);
         y.leap(1, 1);
         y.step(11, 3 * DAY);

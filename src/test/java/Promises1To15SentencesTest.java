@@ -10,16 +10,6 @@ public final class Promises1To15SentencesTest {
         Sentences.run(Promises1To15SentencesTest.class);
     }
 
-    /** One SERVER, and so many CLOCKS of WAY 0. */
-    private static LeapNet net(int clocks) {
-        LeapNet x = new LeapNet();
-        x.server(0);
-        for (int i = 0; i < clocks; i++) {
-            x.clock(0);
-        }
-        return x;
-    }
-
     private static void dueRow(LeapNet x, int tray, long... numbers) {
         for (int i = 0; i < numbers.length; i++) {
             Check.due(x, "read(" + tray + ", " + i + ")", x.read(tray, i), numbers[i], 0);
@@ -257,7 +247,7 @@ public final class Promises1To15SentencesTest {
 
     static void p11_aStep() {
         Sentences.says("A STEP (2; 5; 7).");
-        LeapNet x = net(2);
+        LeapNet x = Nets.ofClocks(2, 0);
         Check.rangeTaken(x, "CLOCK", n -> x.step(n, 0), 0, 1, 2);
         Check.rangeTaken(x, "COUNT", n -> x.step(0, n), 0, LAST_COUNT, 5);
         Check.refused(x, "2 ahead of 5", x.step(2, -1), 2);
@@ -284,7 +274,7 @@ public final class Promises1To15SentencesTest {
 
     static void p13_byHowMuchItIsAhead() {
         Sentences.says("By how much a CLOCK is AHEAD at a COUNT; STATUS tells NONE from -1 (2; 5).");
-        LeapNet x = net(2);
+        LeapNet x = Nets.ofClocks(2, 0);
         x.leap(0, 1);
         x.step(0, 2 * DAY);
         Check.due(x, "-1", x.ahead(0, 2 * DAY), -1, 0);
@@ -293,7 +283,7 @@ public final class Promises1To15SentencesTest {
         Check.range(x, "COUNT", n -> x.ahead(0, n), 0, LAST_COUNT, 5);
         Check.refused(x, "2 ahead of 5", x.ahead(2, -1), 2);
         // the most that can be: 20 by the TRUE TABLE, 60 by its own
-        LeapNet y = net(1);
+        LeapNet y = Nets.ofClocks(1, 0);
         for (int i = 0; i < 60; i++) {
             y.notice(0, 0, i, 1, 0);
         }
@@ -307,7 +297,7 @@ public final class Promises1To15SentencesTest {
 
     static void p14_offAgainstClockR() {
         Sentences.says("OFF of a CLOCK against CLOCK r; STATUS tells NONE from -1 (2; 5).");
-        LeapNet x = net(1);
+        LeapNet x = Nets.ofClocks(1, 0);
         x.clock(2);
         x.notice(0, 0, 0, 1, 0);
         x.notice(0, 1, 0, 1, 0);
@@ -324,7 +314,7 @@ public final class Promises1To15SentencesTest {
     static void p15_worstAndWhen() {
         Sentences.says("Of all CLOCKS, what 0: WORST, 1: WHEN (5: also from behind to, or more than 2,000 ahead of it; "
             + "8: fewer than two CLOCKS).");
-        LeapNet x = net(0);
+        LeapNet x = Nets.ofClocks(0, 0);
         Check.refused(x, "no CLOCK", x.worst(0, 0, 0), 8);
         x.clock(0);
         Check.refused(x, "one CLOCK", x.worst(0, 0, 0), 8);
@@ -340,7 +330,7 @@ public final class Promises1To15SentencesTest {
         Check.refused(x, "as far as can be", x.worst(LEAST, GREATEST, 0), 5);
         Check.refused(x, "the other way", x.worst(GREATEST, LEAST, 0), 5);
         // of all: the twelfth, too
-        LeapNet y = net(12);
+        LeapNet y = Nets.ofClocks(12, 0);
         y.notice(0, 11, 0, 1, 0);
         Check.due(y, "WORST", y.worst(DAY - 5, DAY + 5, 0), 1_000, 0);
         Check.due(y, "WHEN", y.worst(DAY - 5, DAY + 5, 1), DAY + 1, 0);

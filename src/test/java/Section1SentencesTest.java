@@ -8,16 +8,6 @@ public final class Section1SentencesTest {
         Sentences.run(Section1SentencesTest.class);
     }
 
-    /** One SERVER, and so many CLOCKS of WAY 0. */
-    private static LeapNet net(int clocks) {
-        LeapNet x = new LeapNet();
-        x.server(0);
-        for (int i = 0; i < clocks; i++) {
-            x.clock(0);
-        }
-        return x;
-    }
-
     /** A CLOCK of each WAY, told of DAY 1 of a kind. */
     private static LeapNet fourWays(int kind) {
         LeapNet x = new LeapNet();
@@ -102,7 +92,7 @@ public final class Section1SentencesTest {
 
     static void s1_countsAre0To900000000() {
         Sentences.says("A COUNT is a number of seconds, 0 to 900,000,000");
-        LeapNet x = net(2);
+        LeapNet x = Nets.ofClocks(2, 0);
         Check.range(x, "civil", n -> x.civil(n, 1), 0, LAST_COUNT, 5);
         Check.range(x, "shows", n -> x.shows(1, n), 0, LAST_COUNT, 5);
         Check.range(x, "ahead", n -> x.ahead(1, n), 0, LAST_COUNT, 5);
@@ -120,7 +110,7 @@ public final class Section1SentencesTest {
 
     static void s1_daysAre0To9999() {
         Sentences.says("A TABLE tells of some DAYS (0 to 9,999)");
-        LeapNet x = net(1);
+        LeapNet x = Nets.ofClocks(1, 0);
         Check.rangeTaken(x, "leap", n -> x.leap(n, 1), 0, 9_999, 5);
         Check.rangeTaken(x, "leap to neither", n -> x.leap(n, 0), 0, 9_999, 5);
         Check.range(x, "count", n -> x.count(n, 0), 0, 9_999, 5);
@@ -235,7 +225,7 @@ public final class Section1SentencesTest {
 
     static void s1_tableEmptyAndAhead0AtFirst() {
         Sentences.says("Each has a TABLE of its own (3), which is empty at first, and is AHEAD by a number of seconds, 0 at first.");
-        LeapNet x = net(0);
+        LeapNet x = Nets.ofClocks(0, 0);
         x.leap(0, 1);
         x.leap(1, -1);
         x.clock(0);
@@ -258,7 +248,7 @@ public final class Section1SentencesTest {
 
     static void s1_ownIsTheCountAndHowMuchItIsAhead() {
         Sentences.says("At a COUNT a CLOCK's OWN is the COUNT and by how much it is AHEAD then");
-        LeapNet x = net(2);
+        LeapNet x = Nets.ofClocks(2, 0);
         for (int i = 0; i < 20; i++) {
             x.leap(i, -1);
         }
@@ -272,7 +262,7 @@ public final class Section1SentencesTest {
     /** A STEP makes OWN the COUNT of a CIVIL time, so it never comes below 0: the least that can be come to is 0. */
     static void s1_of0IfOwnIsBelow0() {
         Sentences.says("(of 0, if OWN is below 0)");
-        LeapNet x = net(2);
+        LeapNet x = Nets.ofClocks(2, 0);
         for (int i = 0; i < 20; i++) {
             x.leap(i, 1);
         }
@@ -323,7 +313,7 @@ public final class Section1SentencesTest {
 
     static void s1_daysAreShownBy100000000() {
         Sentences.says("100,000,000 times the DAY, and thousandths of the DAY");
-        LeapNet x = net(1);
+        LeapNet x = Nets.ofClocks(1, 0);
         dueShown(x, DAY - 1, 86_399_000);
         dueShown(x, DAY, 100_000_000);
         dueShown(x, LAST_COUNT, 1_041_657_600_000L);
@@ -331,7 +321,7 @@ public final class Section1SentencesTest {
 
     static void s1_stepsAtMost60OfAllClocks() {
         Sentences.says("STEPS, at most 60, told of a CLOCK at a COUNT");
-        LeapNet x = net(3);
+        LeapNet x = Nets.ofClocks(3, 0);
         x.leap(0, 1);
         for (int i = 0; i < 60; i++) {
             Check.taken(x, "STEP " + i, x.step(i % 2, 2 * DAY + i));
@@ -341,7 +331,7 @@ public final class Section1SentencesTest {
         }
         Check.due(x, "the 59th", x.ahead(0, 2 * DAY + 58), -1, 0);
         Check.due(x, "the CLOCK without one", x.ahead(2, 5 * DAY), 0, 0);
-        LeapNet y = net(1);
+        LeapNet y = Nets.ofClocks(1, 0);
         for (int i = 0; i < 60; i++) {
             Check.taken(y, "STEP " + i + " of one CLOCK", y.step(0, LAST_COUNT - i));
         }
@@ -351,7 +341,7 @@ public final class Section1SentencesTest {
     static void s1_stepsInAnyOrder() {
         Sentences.says("in any order; the CLOCK's are done by their COUNTS (of like ones as they were told)");
         int[] counts = {9 * DAY, 3 * DAY, 6 * DAY, 6 * DAY, 0};
-        LeapNet x = net(1);
+        LeapNet x = Nets.ofClocks(1, 0);
         x.leap(2, 1);
         x.leap(5, 1);
         x.leap(8, 1);
@@ -366,7 +356,7 @@ public final class Section1SentencesTest {
 
     static void s1_aStepCountsFromItsCountOn() {
         Sentences.says("from that COUNT on it is AHEAD by as much as makes CIVIL of OWN there the TRUE one of that COUNT");
-        LeapNet x = net(1);
+        LeapNet x = Nets.ofClocks(1, 0);
         x.leap(0, 1);
         x.leap(1, 1);
         x.leap(3, -1);
@@ -383,7 +373,7 @@ public final class Section1SentencesTest {
     static void s1_aStepToASecondThatTheDayHasNot() {
         Sentences.says("(of a SECOND 86,400 that the DAY has not by its own TABLE: SECOND 0 of the next DAY; "
             + "of a SECOND 86,399 that it has not: likewise)");
-        LeapNet x = net(3);
+        LeapNet x = Nets.ofClocks(3, 0);
         x.leap(1, 1);
         x.notice(0, 1, 1, -1, 0);
         x.notice(0, 2, 1, 1, 0);

@@ -7,16 +7,6 @@ public final class Section3SentencesTest {
         Sentences.run(Section3SentencesTest.class);
     }
 
-    /** One SERVER, and so many CLOCKS of WAY 0. */
-    private static LeapNet net(int clocks) {
-        LeapNet x = new LeapNet();
-        x.server(0);
-        for (int i = 0; i < clocks; i++) {
-            x.clock(0);
-        }
-        return x;
-    }
-
     /** Of the NOTICES from 0 on. */
     private static void dueTold(LeapNet x, int what, int... due) {
         for (int i = 0; i < due.length; i++) {
@@ -47,7 +37,7 @@ public final class Section3SentencesTest {
 
     static void s3_noticesAtMost60() {
         Sentences.says("NOTICES, at most 60, numbered as they come");
-        LeapNet x = net(2);
+        LeapNet x = Nets.ofClocks(2, 0);
         for (int i = 0; i < 60; i++) {
             Check.refused(x, "told(" + i + ", 0), not there yet", x.told(i, 0), 2);
             Check.due(x, "NOTICE " + i, x.notice(0, i % 2, 100 + i, 1, 0), i, 0);
@@ -63,7 +53,7 @@ public final class Section3SentencesTest {
 
     static void s3_sixtyDaysInOneTable() {
         Sentences.says("NOTICES, at most 60, numbered as they come");
-        LeapNet x = net(1);
+        LeapNet x = Nets.ofClocks(1, 0);
         for (int i = 59; i >= 0; i--) {
             x.notice(0, 0, i, i % 2 == 0 ? 1 : -1, 0);
         }
@@ -76,7 +66,7 @@ public final class Section3SentencesTest {
 
     static void s3_aCountNotAheadOfThoseToldAhead() {
         Sentences.says("come at a COUNT not ahead of those told ahead");
-        LeapNet x = net(2);
+        LeapNet x = Nets.ofClocks(2, 0);
         Check.due(x, "the first, at any COUNT", x.notice(0, 0, 1, 1, 700), 0, 0);
         Check.refused(x, "one ahead of it", x.notice(0, 0, 1, 1, 699), 12);
         Check.refused(x, "to another CLOCK, too", x.notice(0, 1, 1, 1, 0), 12);
@@ -90,7 +80,7 @@ public final class Section3SentencesTest {
 
     static void s3_inTimeAheadOfTheEndOfItsDay() {
         Sentences.says("A NOTICE comes IN TIME, if its COUNT is ahead of the end of its DAY by the TRUE TABLE.");
-        LeapNet x = net(1);
+        LeapNet x = Nets.ofClocks(1, 0);
         x.notice(0, 0, 1, 1, 2 * DAY - 2);
         x.notice(0, 0, 1, 1, 2 * DAY - 1);
         x.notice(0, 0, 1, 1, 2 * DAY);
@@ -105,7 +95,7 @@ public final class Section3SentencesTest {
         // the DAY behind does not count
         x.leap(2, 1);
         dueTold(x, 0, 1, 1, 0, 0);
-        LeapNet y = net(1);
+        LeapNet y = Nets.ofClocks(1, 0);
         y.notice(0, 0, 0, 1, 0);
         y.notice(0, 0, 0, 1, DAY);
         y.notice(0, 0, 9_999, 1, 10_000 * DAY - 1);
@@ -126,7 +116,7 @@ public final class Section3SentencesTest {
     }
 
     private static LeapNet withOneNotice(String text, int from) {
-        LeapNet x = net(1);
+        LeapNet x = Nets.ofClocks(1, 0);
         Check.rules(x, text, from);
         x.notice(0, 0, 3, 1, 0);
         return x;
@@ -134,7 +124,7 @@ public final class Section3SentencesTest {
 
     static void s3_believedByTheTextOfTheTrueDay() {
         Sentences.says("It is BELIEVED by the DEF believe of the TEXT in force on the TRUE DAY of its COUNT");
-        LeapNet x = net(1);
+        LeapNet x = Nets.ofClocks(1, 0);
         x.notice(0, 0, 9, 1, 2 * DAY - 1);
         x.notice(0, 0, 9, 1, 2 * DAY);
         x.notice(0, 0, 9, 1, 2 * DAY + 1);
@@ -203,10 +193,10 @@ public final class Section3SentencesTest {
         int[] alike = {0, 0, 1, 0, 0, 0, 2};
         int[] against = {0, 0, 0, 0, 2, 1, 1};
         for (int many = 0; many < 3; many++) {
-            LeapNet y = net(2);
+            LeapNet y = Nets.ofClocks(2, 0);
             y.server(3);
             Check.rules(y, "believe:if alike=" + many + " then 1 else 0;", 0);
-            LeapNet z = net(2);
+            LeapNet z = Nets.ofClocks(2, 0);
             z.server(3);
             Check.rules(z, "believe:if against=" + many + " then 1 else 0;", 0);
             for (int i = 0; i < told.length; i++) {
@@ -217,7 +207,7 @@ public final class Section3SentencesTest {
             }
         }
         // none is BELIEVED, none IN TIME: they count all the same, but those told behind do not
-        LeapNet late = net(1);
+        LeapNet late = Nets.ofClocks(1, 0);
         Check.rules(late, "believe:if alike=1 then 1 else 0;", 0);
         late.notice(0, 0, 2, 1, 4 * DAY);
         late.notice(0, 0, 2, 1, 4 * DAY);
@@ -230,17 +220,17 @@ public final class Section3SentencesTest {
         int[][] days = {{0, 0, 0}, {29, 0, 0}, {30, 0, 1}, {59, 0, 1}, {60, 0, 2}, {329, 0, 10}, {330, 0, 11}, {359, 0, 11},
             {360, 0, 11}, {364, 0, 11}, {365, 1, 0}, {394, 1, 0}, {395, 1, 1}, {729, 1, 11}, {730, 2, 0}, {9_999, 27, 4}};
         for (int[] day : days) {
-            LeapNet x = net(1);
+            LeapNet x = Nets.ofClocks(1, 0);
             x.notice(0, 0, 5, 1, day[0] * DAY);
             String text = "believe:if day=" + day[0] + " and year=" + day[1] + " and month=" + day[2] + " then 1 else 0;";
             Check.due(x, text, Check.rules(x, text, 0), 1, 0);
             Check.due(x, text + " told", x.told(0, 1), 1, 0);
         }
-        LeapNet last = net(1);
+        LeapNet last = Nets.ofClocks(1, 0);
         last.notice(0, 0, 5, 1, LAST_COUNT);
         Check.rules(last, "believe:if day=10416 and year=28 and month=6 then 1 else 0;", 0);
         dueTold(last, 1, 1);
-        LeapNet longer = net(1);
+        LeapNet longer = Nets.ofClocks(1, 0);
         longer.leap(364, 1);
         longer.notice(0, 0, 5, 1, 365 * DAY);
         longer.notice(0, 0, 5, 1, 365 * DAY + 1);
@@ -250,7 +240,7 @@ public final class Section3SentencesTest {
 
     static void s3_tableByTheLatestInTimeAndBelieved() {
         Sentences.says("of each DAY as told by the latest NOTICE of it to that CLOCK that came IN TIME and is BELIEVED");
-        LeapNet x = net(2);
+        LeapNet x = Nets.ofClocks(2, 0);
         dueTable(x, 0, 5, 0);
         x.notice(0, 0, 5, 1, 0);
         dueTable(x, 0, 5, 1);
@@ -271,7 +261,7 @@ public final class Section3SentencesTest {
 
     static void s3_falseAndFooled() {
         Sentences.says("FALSE is a NOTICE that tells otherwise than the TRUE TABLE; FOOLED by it is a CLOCK whose TABLE is by it.");
-        LeapNet x = net(1);
+        LeapNet x = Nets.ofClocks(1, 0);
         x.notice(0, 0, 5, 1, 0);
         x.notice(0, 0, 5, -1, 0);
         dueTold(x, 2, 1, 1);
@@ -293,7 +283,7 @@ public final class Section3SentencesTest {
 
     static void s3_missesAreDaysNotAlike() {
         Sentences.says("MISSES: DAYS that are not alike in the CLOCK's TABLE and the TRUE one.");
-        LeapNet x = net(1);
+        LeapNet x = Nets.ofClocks(1, 0);
         Check.due(x, "both empty", x.misses(0), 0, 0);
         x.leap(0, 1);
         x.leap(9_999, -1);
@@ -311,7 +301,7 @@ public final class Section3SentencesTest {
 
     static void s3_offCountsADay86400000() {
         Sentences.says("in thousandths (of unlike DAYS a DAY counts 86,400,000 each)");
-        LeapNet x = net(3);
+        LeapNet x = Nets.ofClocks(3, 0);
         x.notice(0, 0, 1, 1, 0);
         x.notice(0, 2, 1, -1, 0);
         long[][] due = {{0, 0, 0}, {0, 0, 1_000}, {0, 0, 1_000}, {-1_000, 0, 1_000}, {-1_000, 0, 1_000}};
@@ -329,7 +319,7 @@ public final class Section3SentencesTest {
     static void s3_worstBetweenACountAndOne2000On() {
         Sentences.says("WORST between a COUNT and one at most 2,000 on: the greatest size of OFF of two CLOCKS; "
             + "WHEN: the first COUNT with it.");
-        LeapNet x = net(3);
+        LeapNet x = Nets.ofClocks(3, 0);
         x.leap(0, -1);
         x.step(1, 2 * DAY + 2_000);
         x.step(2, 2 * DAY + 2_001);
@@ -343,7 +333,7 @@ public final class Section3SentencesTest {
         Check.due(x, "the first of many", x.worst(2 * DAY + 1_000, 2 * DAY + 3_000, 1), 2 * DAY + 2_000, 0);
         Check.due(x, "the last 2,000", x.worst(LAST_COUNT - 2_000, LAST_COUNT, 1), LAST_COUNT - 2_000, 0);
         // of two CLOCKS, whichever stands ahead
-        LeapNet y = net(2);
+        LeapNet y = Nets.ofClocks(2, 0);
         y.notice(0, 0, 1, -1, 0);
         Check.due(y, "the first is ahead", y.worst(3 * DAY, 3 * DAY, 0), 1_000, 0);
         y.notice(0, 1, 1, -1, 0);

@@ -7,15 +7,6 @@ public final class Section4SentencesTest {
         Sentences.run(Section4SentencesTest.class);
     }
 
-    private static LeapNet net(int clocks, int way) {
-        LeapNet x = new LeapNet();
-        x.server(0);
-        for (int i = 0; i < clocks; i++) {
-            x.clock(way);
-        }
-        return x;
-    }
-
     private static void dueBlamed(LeapNet x, int many, int set, int rivals) {
         Check.due(x, "blamed(0)", x.blamed(0), many, 0);
         Check.due(x, "blamed(1)", x.blamed(1), set, 0);
@@ -28,7 +19,7 @@ public final class Section4SentencesTest {
 
     static void s4_stampsAtMost60NumberedAsTheyCome() {
         Sentences.says("STAMPS, at most 60, numbered as they come");
-        LeapNet x = net(2, 0);
+        LeapNet x = Nets.ofClocks(2, 0);
         for (int i = 0; i < 60; i++) {
             Check.due(x, "STAMP " + i, x.stamp(i % 2, 5 * i), i, 0);
         }
@@ -40,7 +31,7 @@ public final class Section4SentencesTest {
     /** All 60 are looked at: each of the first 30 stands in the wrong order with each of the last 30. */
     static void s4_sixtyStampsThatAreWrong() {
         Sentences.says("STAMPS, at most 60, numbered as they come");
-        LeapNet x = net(1, 1);
+        LeapNet x = Nets.ofClocks(1, 1);
         x.notice(0, 0, 1, 1, 0);
         for (int i = 0; i < 60; i++) {
             x.stamp(0, i < 30 ? 2 * DAY - 1 : 2 * DAY);
@@ -51,7 +42,7 @@ public final class Section4SentencesTest {
 
     static void s4_notAheadOfTheStampAhead() {
         Sentences.says("a CLOCK's at a COUNT (not ahead of that of the STAMP ahead)");
-        LeapNet x = net(2, 0);
+        LeapNet x = Nets.ofClocks(2, 0);
         Check.due(x, "the first, at any COUNT", x.stamp(0, 500), 0, 0);
         Check.refused(x, "one ahead of it", x.stamp(0, 499), 12);
         Check.refused(x, "of another CLOCK, too", x.stamp(1, 0), 12);
@@ -66,14 +57,14 @@ public final class Section4SentencesTest {
 
     static void s4_aStampIsWhatItsClockShows() {
         Sentences.says("that is what it SHOWS there");
-        LeapNet x = net(2, 0);
+        LeapNet x = Nets.ofClocks(2, 0);
         x.notice(0, 0, 1, 1, 0);
         x.notice(0, 1, 1, 1, 0);
         // 86,400,000 of DAY 1 is less than 0 of DAY 2, though both are as far from DAY 0
         x.stamp(0, 2 * DAY);
         x.stamp(1, 2 * DAY + 1);
         dueWrong(x, 0);
-        LeapNet y = net(1, 1);
+        LeapNet y = Nets.ofClocks(1, 1);
         y.notice(0, 0, 1, 1, 0);
         y.stamp(0, 2 * DAY - 1);
         y.stamp(0, 2 * DAY);
@@ -82,7 +73,7 @@ public final class Section4SentencesTest {
 
     static void s4_wrongIfTheLesserCountIsNotTheLesser() {
         Sentences.says("WRONG are two STAMPS of unlike COUNTS of which the one with the lesser COUNT is not the lesser.");
-        LeapNet x = net(2, 0);
+        LeapNet x = Nets.ofClocks(2, 0);
         x.leap(0, 1);
         x.leap(1, 1);
         x.step(1, 3 * DAY);
@@ -107,13 +98,13 @@ public final class Section4SentencesTest {
         x.clock(0);
         dueBlamed(x, 0, 0, 1);
         // of one CLOCK alone
-        LeapNet one = net(12, 1);
+        LeapNet one = Nets.ofClocks(12, 1);
         one.notice(0, 11, 1, 1, 0);
         one.stamp(11, 2 * DAY - 1);
         one.stamp(11, 2 * DAY);
         dueBlamed(one, 1, 2_048, 1);
         // each of the twelve alone: all must be changed
-        LeapNet all = net(12, 1);
+        LeapNet all = Nets.ofClocks(12, 1);
         for (int i = 0; i < 12; i++) {
             all.notice(0, i, 1, 1, 0);
         }
@@ -126,7 +117,7 @@ public final class Section4SentencesTest {
     static void s4_ofSeveralTheLeastSet() {
         Sentences.says("of several the least set (1 for CLOCK 0, 2 for 1 ..); RIVALS: how many sets of as many.");
         // CLOCKS 1, 3, 5 .. are behind: each is WRONG with the one ahead of it, and with no other
-        LeapNet x = net(12, 0);
+        LeapNet x = Nets.ofClocks(12, 0);
         x.leap(0, 1);
         x.leap(1, 1);
         int rivals = 1;
@@ -141,7 +132,7 @@ public final class Section4SentencesTest {
         }
         dueWrong(x, 6);
         // one with two others: it alone is the fewest, though the others' set be less
-        LeapNet star = net(3, 0);
+        LeapNet star = Nets.ofClocks(3, 0);
         star.leap(0, 1);
         star.leap(1, 1);
         star.step(2, 3 * DAY);

@@ -8,20 +8,6 @@ public final class Section5SentencesTest {
         Sentences.run(Section5SentencesTest.class);
     }
 
-    /** CLOCKS of WAY 0 to 3, told of a TRUE DAY 1 of a kind, a fifth that is not told, and a PROGRAM. */
-    private static LeapNet net(int kind, String program) {
-        LeapNet x = new LeapNet();
-        x.leap(1, kind);
-        x.server(0);
-        for (int way = 0; way < 4; way++) {
-            x.clock(way);
-            x.notice(0, way, 1, kind, 0);
-        }
-        x.clock(0);
-        Check.due(program, Check.program(x, program) >= 0, true);
-        return x;
-    }
-
     private static void dueRun(LeapNet x, int clock, int count, int outcome, int end, int late) {
         String run = "run(" + clock + ", " + count + ")";
         Check.due(x, run, x.run(clock, count), outcome, 0);
@@ -123,13 +109,13 @@ public final class Section5SentencesTest {
 
     static void s5_fortyLinesAreRun() {
         Sentences.says("3 a 41st LINE (at its WORD)");
-        LeapNet x = net(1, "again 2{}".repeat(39) + "stamp;");
+        LeapNet x = Nets.withProgram(1, "again 2{}".repeat(39) + "stamp;");
         dueRun(x, 4, 5, 0, 5, 0);
         dueKept(x, 5_000);
-        LeapNet y = net(1, "again 2{}".repeat(40));
+        LeapNet y = Nets.withProgram(1, "again 2{}".repeat(40));
         dueRun(y, 4, 5, 0, 5, 0);
         dueKept(y);
-        LeapNet z = net(1, "stamp;".repeat(39) + "wait 1;");
+        LeapNet z = Nets.withProgram(1, "stamp;".repeat(39) + "wait 1;");
         dueRun(z, 4, 5, 0, 6, 0);
         Check.due(z, "39 stamps", z.ran(2), 39, 0);
     }
@@ -164,7 +150,7 @@ public final class Section5SentencesTest {
 
     static void s5_waitTillItShowsAsMuchMoreOrFurther() {
         Sentences.says("wait: till the CLOCK SHOWS the thousandths more than now (a DAY counts 86,400,000) or further");
-        LeapNet x = net(1, "wait 1; stamp;");
+        LeapNet x = Nets.withProgram(1, "wait 1; stamp;");
         dueRun(x, 4, 0, 0, 1, 0);
         dueRun(x, 4, DAY - 1, 0, DAY, 0);
         dueKept(x, SHOWN);
@@ -182,18 +168,18 @@ public final class Section5SentencesTest {
         dueRun(x, 2, 2 * DAY, 0, 2 * DAY + 2, 1);
         // a CLOCK that smears shows 999 thousandths more now and then
         dueRun(x, 3, DAY, 0, DAY + 2, 1);
-        LeapNet y = net(-1, "wait 1; stamp;");
+        LeapNet y = Nets.withProgram(-1, "wait 1; stamp;");
         // further: the SECOND that would be it is not
         dueRun(y, 0, 2 * DAY - 2, 0, 2 * DAY - 1, 0);
         dueKept(y, 2 * SHOWN);
-        LeapNet z = net(-1, "wait 3600; stamp;");
+        LeapNet z = Nets.withProgram(-1, "wait 3600; stamp;");
         dueRun(z, 0, 2 * DAY - 3_000, 0, 2 * DAY + 599, -1);
         dueKept(z, 2 * SHOWN + 600_000);
     }
 
     static void s5_untilThatTimeOrFurtherAtOnceIfSo() {
         Sentences.says("until: till the thousandths of the DAY are those of the hour, minute and second, or further (at once, if so)");
-        LeapNet x = net(1, "until 1:2:3; stamp;");
+        LeapNet x = Nets.withProgram(1, "until 1:2:3; stamp;");
         int at = 3_723;
         dueRun(x, 4, at - 1, 0, at, 0);
         dueKept(x, 3_723_000);
@@ -203,27 +189,27 @@ public final class Section5SentencesTest {
         dueRun(x, 4, DAY - 1, 0, DAY - 1, 0);
         // it SHOWS 3,722,956 in that SECOND
         dueRun(x, 3, DAY + at, 0, DAY + at + 1, 0);
-        LeapNet y = net(1, "until 0:0:0; stamp;");
+        LeapNet y = Nets.withProgram(1, "until 0:0:0; stamp;");
         dueRun(y, 0, DAY - 1, 0, DAY - 1, 0);
-        LeapNet z = net(1, "until 23:59:59; stamp;");
+        LeapNet z = Nets.withProgram(1, "until 23:59:59; stamp;");
         dueRun(z, 0, 2 * DAY, 0, 2 * DAY, 0);
         dueKept(z, SHOWN + 86_400_000);
         dueRun(z, 0, 2 * DAY - 4_000, 0, 2 * DAY - 1, 0);
         // a shorter DAY has no such SECOND, and the next DAY's comes too late
-        LeapNet w = net(-1, "until 23:59:59; stamp;");
+        LeapNet w = Nets.withProgram(-1, "until 23:59:59; stamp;");
         dueRun(w, 0, 2 * DAY - 2, 2, 2 * DAY + 4_998, 0);
     }
 
     static void s5_theFirst40AreKept() {
         Sentences.says("stamp: what is shown is kept (the first 40 are)");
-        LeapNet x = net(1, "again 20{stamp;wait 1;} again 19{stamp;} stamp;");
+        LeapNet x = Nets.withProgram(1, "again 20{stamp;wait 1;} again 19{stamp;} stamp;");
         dueRun(x, 4, 0, 0, 20, 0);
         Check.due(x, "forty", x.ran(2), 40, 0);
         Check.due(x, "the 1st", x.kept(0), 0, 0);
         Check.due(x, "the 20th", x.kept(19), 19_000, 0);
         Check.due(x, "the 40th", x.kept(39), 20_000, 0);
         Check.refused(x, "a 41st", x.kept(40), 8);
-        LeapNet y = net(1, "again 20{stamp;wait 1;stamp;} stamp;");
+        LeapNet y = Nets.withProgram(1, "again 20{stamp;wait 1;stamp;} stamp;");
         dueRun(y, 4, 0, 0, 20, 0);
         Check.due(y, "the 40th", y.kept(39), 20_000, 0);
         Check.refused(y, "the 41st", y.kept(40), 8);
@@ -232,7 +218,7 @@ public final class Section5SentencesTest {
     static void s5_parseOfTheSecondMore() {
         Sentences.says("parse: where 86,400,000 thousandths of a DAY are shown: refuse ends the RUN, "
             + "fold and take keep what is shown there, fold as the next DAY's 0; else (also refuse) it is kept as a stamp.");
-        LeapNet x = net(1, "parse take; parse fold; parse refuse; stamp;");
+        LeapNet x = Nets.withProgram(1, "parse take; parse fold; parse refuse; stamp;");
         long more = SHOWN + 86_400_000;
         dueRun(x, 0, 2 * DAY, 1, 2 * DAY, 0);
         dueKept(x, more, 2 * SHOWN);
@@ -248,11 +234,11 @@ public final class Section5SentencesTest {
 
     static void s5_onlyWaitAndUntilTakeTime() {
         Sentences.says("All these take no time but wait and until, which go on COUNT by COUNT.");
-        LeapNet x = net(1, "again 20{again 20{again 20{stamp; parse take; until 0:0:0;}}} wait 1;");
+        LeapNet x = Nets.withProgram(1, "again 20{again 20{again 20{stamp; parse take; until 0:0:0;}}} wait 1;");
         dueRun(x, 4, 7, 0, 8, 0);
         Check.due(x, "all that were kept", x.ran(2), 16_000, 0);
         // the COUNT at which a STEP lets the CLOCK SHOW enough is not passed over
-        LeapNet y = net(1, "wait 10; stamp;");
+        LeapNet y = Nets.withProgram(1, "wait 10; stamp;");
         y.leap(0, -1);
         y.leap(1, -1);
         y.step(4, 3 * DAY + 7);
@@ -262,51 +248,51 @@ public final class Section5SentencesTest {
 
     static void s5_againIsDoneSoManyTimes() {
         Sentences.says("or again NUMBER { {LINE} }");
-        LeapNet x = net(1, "again 2{stamp; wait 1;} again 20{wait 2;} stamp;");
+        LeapNet x = Nets.withProgram(1, "again 2{stamp; wait 1;} again 20{wait 2;} stamp;");
         dueRun(x, 4, 0, 0, 42, 0);
         dueKept(x, 0, 1_000, 42_000);
-        LeapNet y = net(1, "again 3{again 2{wait 1;} again 4{wait 10;} stamp;}");
+        LeapNet y = Nets.withProgram(1, "again 3{again 2{wait 1;} again 4{wait 10;} stamp;}");
         dueRun(y, 4, 0, 0, 126, 0);
         dueKept(y, 42_000, 84_000, 126_000);
     }
 
     static void s5_everAtThe5000thCount() {
         Sentences.says("The RUN ends behind the last LINE, or by refuse, or it is for EVER: at the 5,000th COUNT behind its first.");
-        LeapNet empty = net(1, "");
+        LeapNet empty = Nets.withProgram(1, "");
         dueRun(empty, 4, 9, 0, 9, 0);
         dueKept(empty);
-        LeapNet x = net(1, "wait 3600; wait 1399; stamp;");
+        LeapNet x = Nets.withProgram(1, "wait 3600; wait 1399; stamp;");
         dueRun(x, 4, 9, 0, 5_008, 0);
-        LeapNet y = net(1, "wait 3600; wait 1400; stamp;");
+        LeapNet y = Nets.withProgram(1, "wait 3600; wait 1400; stamp;");
         dueRun(y, 4, 9, 0, 5_009, 0);
         dueKept(y, 5_009_000);
-        LeapNet z = net(1, "wait 3600; wait 1401; stamp;");
+        LeapNet z = Nets.withProgram(1, "wait 3600; wait 1401; stamp;");
         dueRun(z, 4, 9, 2, 5_009, 0);
         dueKept(z);
-        LeapNet w = net(1, "until 1:23:20; stamp; until 1:23:21; stamp;");
+        LeapNet w = Nets.withProgram(1, "until 1:23:20; stamp; until 1:23:21; stamp;");
         dueRun(w, 4, 1, 0, 5_001, 0);
         dueKept(w, 5_000_000, 5_001_000);
         dueRun(w, 4, 0, 2, 5_000, 0);
         dueKept(w, 5_000_000);
-        LeapNet refused = net(1, "wait 3600; wait 1400; parse refuse; stamp;");
+        LeapNet refused = Nets.withProgram(1, "wait 3600; wait 1400; parse refuse; stamp;");
         dueRun(refused, 0, 2 * DAY - 5_000, 1, 2 * DAY, 0);
         dueKept(refused);
-        LeapNet late = net(1, "wait 1; wait 3600; wait 1398; wait 1;");
+        LeapNet late = Nets.withProgram(1, "wait 1; wait 3600; wait 1398; wait 1;");
         dueRun(late, 1, 2 * DAY - 1, 2, 2 * DAY + 4_999, 1);
     }
 
     static void s5_outcomeAndLate() {
         Sentences.says("OUTCOME: 0 done, 1 refused, 2 EVER; its COUNT; LATE: by how many seconds of COUNTS the waits were longer, "
             + "all together, than was told (below 0: shorter).");
-        LeapNet x = net(1, "wait 5; wait 5; until 0:0:30; wait 5; parse refuse;");
+        LeapNet x = Nets.withProgram(1, "wait 5; wait 5; until 0:0:30; wait 5; parse refuse;");
         dueRun(x, 4, 2 * DAY, 0, 2 * DAY + 35, 0);
         dueRun(x, 1, 2 * DAY - 3, 0, 2 * DAY + 36, 1);
         dueRun(x, 0, 2 * DAY - 15, 1, 2 * DAY, 0);
-        LeapNet y = net(-1, "wait 5; wait 5;");
+        LeapNet y = Nets.withProgram(-1, "wait 5; wait 5;");
         dueRun(y, 0, 2 * DAY - 3, 0, 2 * DAY + 6, -1);
         Check.due(y, "STATUS tells -1 from NONE", y.ran(1), -1, 0);
         // one is longer, another shorter: all together they are as told
-        LeapNet z = net(1, "wait 5; stamp; wait 5; stamp; wait 5; stamp;");
+        LeapNet z = Nets.withProgram(1, "wait 5; stamp; wait 5; stamp; wait 5; stamp;");
         z.leap(1, 0);
         z.leap(0, 1);
         z.leap(2, -1);
@@ -317,7 +303,7 @@ public final class Section5SentencesTest {
         dueRun(z, 4, 3 * DAY - 13, 0, 3 * DAY + 2, 0);
         dueKept(z, 2 * SHOWN + 86_392_000, 2 * SHOWN + 86_397_000, 3 * SHOWN + 2_000);
         // until is no wait
-        LeapNet w = net(1, "until 23:59:59; until 0:0:0;");
+        LeapNet w = Nets.withProgram(1, "until 23:59:59; until 0:0:0;");
         dueRun(w, 3, 2 * DAY - 10, 0, 2 * DAY, 0);
     }
 }
