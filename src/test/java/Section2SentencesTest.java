@@ -173,11 +173,12 @@ public final class Section2SentencesTest {
         Texts.faultyRules("a:if 1=1 or 1=1 ^and 1=1 then 1 else 2;", 2);
         // in brackets stands a WHOLE, and an if there may have the other
         Texts.goodRules("a:if 1=1 and (if 1=1 or 2=2 then 1 else 2)=1 then 1 else 2;", 1);
-        Texts.believes("believe:if 1=1 and 1=1 and 1=2 then 1 else 0;", 0);
-        Texts.believes("believe:if 1=2 and 1=1 and 1=1 then 1 else 0;", 0);
-        Texts.believes("believe:if 1=2 or 1=2 or 1=1 then 1 else 0;", 1);
-        Texts.believes("believe:if 1=1 or 1=2 or 1=2 then 1 else 0;", 1);
-        Texts.believes("believe:if 1=2 or 1=2 or 1=2 then 1 else 0;", 0);
+        // each of three ONES holds, or does not
+        for (int holds = 0; holds < 8; holds++) {
+            String[] ones = {"1=" + (holds & 1), "2=" + (holds & 2), "4=" + (holds & 4)};
+            Texts.believes("believe:if " + String.join(" and ", ones) + " then 1 else 0;", holds == 7 ? 1 : 0);
+            Texts.believes("believe:if " + String.join(" or ", ones) + " then 1 else 0;", holds == 0 ? 0 : 1);
+        }
     }
 
     static void s2_oneComparesTwoSums() {
@@ -308,6 +309,7 @@ public final class Section2SentencesTest {
         Texts.faultyRules("a:1;b:2;c:3; ^b", 4);
         Texts.faultyRules("abcdefgh:1;^abcdefgh:2;", 4);
         Texts.goodRules("a:1;aa:2;ab:3;ba:4;", 4);
+        Texts.goodRules("abcdefgh:1;abcdefg:2;a:3;", 3);
         Texts.goodRules("abcdefgh:1;abcdefgi:2;", 2);
         // a TEXT has its own NAMES
         LeapNet x = new LeapNet();
@@ -366,6 +368,9 @@ public final class Section2SentencesTest {
             Texts.faultyRules(ahead + "^then", 2);
             Texts.faultyRules(ahead + "^or", 2);
         }
+        // a NAME is a whole WORD
+        Texts.faultyRules("aa:1;b:^a;", 6);
+        Texts.faultyRules("a:1;b:^aa;", 6);
         // where no ATOM can begin it is of kind 2
         Texts.faultyRules("a:1 ^zz", 2);
         Texts.faultyRules("a ^zz", 2);
@@ -398,6 +403,10 @@ public final class Section2SentencesTest {
         Texts.value("7%(0-2)", "1");
         Texts.value("(0-7)%(0-2)", "0-1");
         Texts.value("1/2", "0");
+        Texts.value("7/1", "7");
+        Texts.value("7/(0-1)", "0-7");
+        Texts.value("7%1", "0");
+        Texts.value("0/7", "0");
         String least = "m:65536*65536*65536*32768;";
         Texts.believes(least + "believe:if m/(0-1)=m and m%(0-1)=0 then 1 else 0;", 1);
     }

@@ -125,7 +125,8 @@ public final class Section6SentencesTest {
         x.tray(2, 2, 40);
         x.tray(3, 3, 40);
         Check.range(x, "find", n -> x.find(2, 3, n), 1, 20, 5);
-        x.write(3, 20, 1);
+        x.write(3, 20, -1);
+        x.write(2, 20, -1);
         Check.due(x, "the 21st is not asked", x.find(2, 3, 20), 31, 0);
         x.write(3, 19, 1);
         Check.due(x, "the 20th is", x.find(2, 3, 20), 0, 0);
